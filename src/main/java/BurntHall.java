@@ -1009,7 +1009,6 @@ public final class BurntHall {
             if ((waiting[level] & OR_WAITS) != 0) {
                 emit(Act.OR, 0);
             }
-            waiting[level] = 0;
         }
 
         private boolean readTest() {

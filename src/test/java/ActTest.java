@@ -6,6 +6,8 @@ public final class ActTest {
         faults();
         rooms();
         force();
+        traces();
+        eightWeights();
         full();
         conds();
         lastProof();
@@ -161,6 +163,40 @@ public final class ActTest {
         Due.text(x, text);
         x.act();
         Due.is("no fault in " + text, x.fault(0), 0);
+    }
+
+    /** What a text with a FAULT told leaves no trace in the next. */
+    private static void traces() {
+        BurntHall x = new BurntHall();
+        Due.text(x, "proof tax 5 when a; proof tax 6; heirs; least 9; ?");
+        Due.is("a FAULT", x.act(), Due.NONE);
+        Due.text(x, "proof tax 7 when b;");
+        Due.is("one clause", x.act(), 1);
+        Due.is("one proof", x.rule(0, 10), 1);
+        Due.is("no heirs", x.rule(0, 8), 0);
+        Due.is("least", x.rule(0, 0), 1);
+        Due.text(x, "a;");
+        x.paper(4, -1, -1, -1, -1, 0, 0);
+        Due.text(x, "b;");
+        x.paper(4, -1, -1, -1, -1, 0, 0);
+        Due.is("a", x.weight(0, 0), 0);
+        Due.is("b", x.weight(1, 0), 7);
+    }
+
+    private static void eightWeights() {
+        BurntHall x = new BurntHall();
+        x.paper(4, -1, -1, -1, -1, 0, 0);
+        for (int i = 1; i <= 8; i++) {
+            x.pass(1);
+            act(x, "proof tax " + i + "; proof tax " + 2 * i + " when a;");
+        }
+        Due.text(x, "a;");
+        x.paper(4, -1, -1, -1, -1, 0, 0);
+        for (int i = 1; i <= 8; i++) {
+            Due.is("from ahead of the ACT " + i, x.weight(0, i), i);
+            Due.is("from behind the ACT " + i, x.weight(1, i), 2 * i);
+        }
+        Due.is("ahead of all", x.weight(1, 0), 0);
     }
 
     private static void full() {

@@ -7,10 +7,12 @@ public final class ChainsTest {
         gaps();
         order();
         heirs();
+        highNumbers();
         lines();
         weakest();
         fewest();
         strongWithLinks();
+        justAbove999();
         eightLinks();
         remembered();
         judge();
@@ -128,6 +130,14 @@ public final class ChainsTest {
         int g = deed(x, 1, 5, 7, 0, 0, 10);
         chain(x, 0, 7, 0, 0, 6, 0, e, g);
         Due.is("no chain ends with these", d + f, 3 + 5);
+        BurntHall y = hall();
+        int h = deed(y, 1, 1, 2, 0, 0, 40);
+        int i = deed(y, 1, 0, 1, 0, 50, 60);
+        int j = deed(y, 1, 1, 2, 0, 55, 80);
+        int k = deed(y, 1, 5, 6, 0, 0, 10);
+        chain(y, 0, 2, 0, 0, 6, 0, i, j);
+        chain(y, 0, 6, 0, 1, 6, 0, k);
+        Due.is("one that comes too early", h, 0);
     }
 
     private static void heirs() {
@@ -159,6 +169,35 @@ public final class ChainsTest {
         chain(x, 0, 3, 2, 1, 6, 0, b);
         x.dead(6, 65);
         chain(x, 0, 3, 2, 0, 6, 0, a, c);
+    }
+
+    /** Numbers near the most: persons from 64 on, the last LOT. */
+    private static void highNumbers() {
+        BurntHall x = new BurntHall();
+        for (int i = 0; i < 80; i++) x.person(0);
+        for (int i = 0; i < 60; i++) x.lot(10, 0);
+        ActTest.act(x, "proof copy 6; heirs;");
+        x.root(59, 63, 0);
+        x.dead(63, 5);
+        x.child(63, 1);
+        int a = deed(x, 1, 79, 78, 59, 10, 20);
+        int b = deed(x, 1, 64, 77, 59, 10, 20);
+        x.pass(5);
+        x.child(63, 79);
+        x.child(63, 64);
+        Due.is("who gave", x.shown(a, 5, 0), 79);
+        Due.is("who got", x.shown(a, 5, 1), 78);
+        Due.is("which LOT", x.shown(a, 5, 2), 59);
+        chain(x, 59, 78, 5, 0, 6, 59, a);
+        chain(x, 59, 77, 5, 0, 6, 59, b);
+        chain(x, 59, 79, 5, 0, 999, 59);
+        chain(x, 59, 15, 5, Due.NONE);
+        chain(x, 59, 78, 4, 1, 6, 59, a);
+        chain(x, 59, 79, 4, Due.NONE);
+        chain(x, 59, 64, 5, 0, 999, 59);
+        chain(x, 59, 64, 4, Due.NONE);
+        chain(x, 59, 0, 5, Due.NONE);
+        chain(x, 59, 1, 4, 0, 999, 59);
     }
 
     private static void lines() {
@@ -236,6 +275,20 @@ public final class ChainsTest {
         chain(x, 0, 0, 0, 0, 1089, 0, a, b);
     }
 
+    private static void justAbove999() {
+        for (int more : new int[] {9, 10}) {
+            BurntHall x = hall();
+            ActTest.act(x, "proof deed 99; proof copy " + more + ";");
+            int a = deed(x, 1, 0, 1, 0, 20, 30);
+            int b = deed(x, 1, 1, 0, 0, 20, 30);
+            for (int i = 0; i < 10; i++) {
+                x.paper(0, a, 0, 1, 0, 20, 30);
+                x.paper(0, b, 1, 0, 0, 20, 30);
+            }
+            if (more == 9) chain(x, 0, 0, 0, 0, 999, 0); else chain(x, 0, 0, 0, 0, 1000, 0, a, b);
+        }
+    }
+
     private static void eightLinks() {
         BurntHall x = hall();
         x.person(0);
@@ -294,6 +347,9 @@ public final class ChainsTest {
         Due.is("not of the LINE", judged(x, "3", 0, 4, 0), Due.NONE);
         Due.is("no root", judged(x, "3", 1, 4, 0), Due.NONE);
         Due.is("no BURNT one", judged(x, "4", 0, 2, 0), Due.NONE);
+        Due.is("no BURNT one is not the first", judged(x, "4", 0, 1, 0), Due.NONE);
+        Due.is("one not of the LINE is not the first", judged(x, "3", 0, 1, 0), Due.NONE);
+        Due.is("a byte of 255 is not the first", judged(x, "\u00ff", 0, 1, 0), Due.NONE);
         Due.is("a blank is none", judged(x, "0 1", 0, 2, 0), Due.NONE);
         Due.is("a byte below 48", judged(x, "/", 0, 2, 0), Due.NONE);
         Due.is("a byte of 255", judged(x, "\u00ff", 0, 2, 0), Due.NONE);

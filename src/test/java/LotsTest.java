@@ -78,7 +78,8 @@ public final class LotsTest {
         Due.is("one was JOINED on a later day", x.join(2, 0, 1, 0, 0, 2, 5), Due.STATE);
         Due.is("four", x.join(4, 1, 2, 4, 5, 50, 999999), 7);
         Due.is("LACK of four", x.about(7, 4), 11 + 12 + 14 + 15 - 999999);
-        for (int i = 0; i < 52; i++) x.lot(1, 0);
+        for (int i = 0; i < 51; i++) x.lot(1, 0);
+        Due.is("the last room", x.join(2, 8, 9, 0, 0, 5, 5), 59);
         Due.is("full", x.join(2, 10, 11, 0, 0, 5, 5), Due.FULL);
         Due.is("STATE ahead of FULL", x.join(2, 1, 11, 0, 0, 5, 5), Due.STATE);
     }
@@ -254,6 +255,8 @@ public final class LotsTest {
         areaIs("n1;e1;s1;w1;", 1);
         areaIs("w60;s60;e60;n60;", 3600);
         areaIs("n1;e1;s1;", Due.NONE);
+        areaIs("n5;e3;s4;w3;", Due.NONE);
+        areaIs("n5;e3;s5;w2;", Due.NONE);
         areaIs("n5;s5;", Due.NONE);
         areaIs("n5;e3;s2;w1;s3;w2;", 2 * 3 + 3 * 2);
         areaIs("n4;e1;n1;e2;s5;w3;", 3 * 4 + 2);
@@ -264,6 +267,7 @@ public final class LotsTest {
         areaIs("e6;n5;w2;s3;w2;n3;w2;s5;", 30 - 6);
         areaIs("e6;n5;w2;s5;w2;n5;w2;s5;", Due.NONE);
         areaIs("e2;n2;e2;n2;w2;s2;w2;s2;", Due.NONE);
+        areaIs("e5;n5;w1;s4;w1;n4;w1;s4;w1;n4;w1;s5;", 5 + 4 + 4 + 4);
     }
 
     private static void strip() {
@@ -274,6 +278,10 @@ public final class LotsTest {
         int ring = made(x, "e9;n9;w9;s3;e6;s3;w6;s3;", 3, 3);
         int beside = made(x, "n10;e10;s10;w10;", 10, 0);
         int bare = x.lot(1, 0);
+        int comb = made(x, "e5;n5;w1;s4;w1;n4;w1;s4;w1;n4;w1;s5;", 6, 2);
+        int turned = made(x, "n5;e5;s1;w4;s1;e4;s1;w4;s1;e4;s1;w5;", 6, 2);
+        Due.is("two of twelve lines", x.strip(comb, turned), 9 + 2 * 4 - 4);
+        Due.is("likewise", x.strip(turned, comb), x.strip(comb, turned));
         Due.is("both", x.strip(big, cross), 15);
         Due.is("likewise", x.strip(cross, big), 15);
         Due.is("within a bent one", x.strip(ring, big), 7 * 3 + 1 * 3 + 7 * 1);
@@ -285,7 +293,7 @@ public final class LotsTest {
         Due.is("no bounds of the first", x.strip(bare, big), Due.STATE);
         Due.is("STATE ahead of NONE", x.strip(open, bare), Due.STATE);
         Due.is("like", x.strip(big, big), Due.RANGE);
-        Due.is("no lot", x.strip(big, 6), Due.RANGE);
+        Due.is("no lot", x.strip(big, 8), Due.RANGE);
         Due.is("no lot", x.strip(-1, big), Due.RANGE);
     }
 }

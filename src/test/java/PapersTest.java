@@ -276,11 +276,17 @@ public final class PapersTest {
         x.paper(1, 0, 0, 1, 0, 0, 50);
         facts(x, 0, 0, 0, 1, 0, 0, 50, 11, 11, 7, 7, 0);
         x.pass(1);
+        ActTest.act(x, "proof oath 1 when a is 1; proof oath 2 when a is 2; proof oath 3 when a is 3; oaths 1;");
+        facts(x, 0, 1, 0, 1, 0, 0, 50, 3, 3, 2, 2, 0);
+        x.pass(1);
+        ActTest.act(x, "proof oath 7 when a is 1; proof oath 2 when a is 2; proof oath 3 when a is 3; oaths 3;");
+        facts(x, 0, 2, 0, 1, 0, 0, 50, 13, 13, 2, 2, 0);
+        x.pass(1);
         ActTest.act(x, "proof oath 4; oaths 0; proof copy 1;");
-        facts(x, 0, 1, 0, 1, 0, 0, 50, 1, 1, 1, 1, 0);
+        facts(x, 0, 3, 0, 1, 0, 0, 50, 1, 1, 1, 1, 0);
         x.pass(1);
         ActTest.act(x, "proof oath 4; oaths 20;");
-        facts(x, 0, 2, 0, 1, 0, 0, 50, 16, 20, 4, 4, 0);
+        facts(x, 0, 4, 0, 1, 0, 0, 50, 16, 20, 4, 4, 0);
     }
 
     private static void ones() {

@@ -3,6 +3,7 @@ public final class PlacesTest {
     public static void main(String[] args) {
         places();
         settles();
+        bare();
         notShown();
         links();
         next();
@@ -77,6 +78,18 @@ public final class PlacesTest {
         x.pass(1);
         x.dead(0, 5);
         Due.is("who gave can't be", x.settles(15), 0);
+    }
+
+    /** A CHAIN without LINKS is SURE even by a sure of 999. */
+    private static void bare() {
+        BurntHall x = hall();
+        x.place(1, 0, 1);
+        x.pass(1);
+        ActTest.act(x, "proof copy 6; sure 999;");
+        Due.is("far from it", x.settles(1), 0);
+        x.same(0, 1);
+        Due.is("who held it ever", x.settles(0), 1);
+        Due.is("with points likewise", x.settles(1), 1);
     }
 
     private static void notShown() {
