@@ -184,6 +184,7 @@ public final class ChainsTest {
         int b = deed(x, 1, 64, 77, 59, 10, 20);
         x.pass(5);
         x.child(63, 79);
+        x.child(63, 2);
         x.child(63, 64);
         Due.is("who gave", x.shown(a, 5, 0), 79);
         Due.is("who got", x.shown(a, 5, 1), 78);
@@ -197,6 +198,8 @@ public final class ChainsTest {
         chain(x, 59, 64, 5, 0, 999, 59);
         chain(x, 59, 64, 4, Due.NONE);
         chain(x, 59, 0, 5, Due.NONE);
+        chain(x, 59, 2, 5, 0, 999, 59);
+        chain(x, 59, 2, 4, Due.NONE);
         chain(x, 59, 1, 4, 0, 999, 59);
     }
 

@@ -14,6 +14,8 @@ public final class PapersTest {
         sums();
         quarrels();
         oaths();
+        twoOaths();
+        changes();
         ones();
         spans();
         least();
@@ -322,6 +324,53 @@ public final class PapersTest {
         x.written(0, 0, 0, 0, 0);
         x.written(3, 0, 0, 0, 0);
         facts(x, 0, 0, 0, 1, 0, 90, 90, 6, 6, 6, 6, 0);
+    }
+
+    /** Each call that changes what is SHOWN is seen by the next answer, with nothing told between. */
+    private static void changes() {
+        BurntHall x = hall();
+        ActTest.act(x, "proof copy 6;");
+        x.paper(1, 0, 0, 1, 0, 10, 90);
+        x.paper(1, 0, 0, 1, 0, 10, 90);
+        x.written(0, 2, 20, 0, 0);
+        x.written(1, 3, 20, 0, 0);
+        facts(x, 0, 0, 0, 1, 0, 10, 90, 12);
+        Due.is("a BURNT one comes", x.burnt(), 2);
+        facts(x, 2, 0, -1, -1, -1, 0, 9999, 0, 0, 0, 0, 0);
+        x.pages(1);
+        facts(x, 0, 0, 0, 1, 0, 10, 90, 6);
+        x.pages(2);
+        facts(x, 0, 0, 0, 1, 0, 10, 90, 12);
+        x.dead(2, 19);
+        facts(x, 0, 0, 0, 1, 0, 10, 90, 6);
+        x.same(2, 3);
+        facts(x, 0, 0, -1, -1, -1, 0, 9999, 0);
+        x.paper(1, 0, 0, 1, 0, 30, 90);
+        facts(x, 0, 0, 0, 1, 0, 30, 90, 6);
+        x.join(2, 0, 1, 0, 0, 30, 5);
+        facts(x, 0, 0, -1, -1, -1, 0, 9999, 0);
+        x.paper(1, 0, 0, 1, 2, 30, 90);
+        facts(x, 0, 0, 0, 1, 2, 30, 90, 6);
+        x.written(3, 3, 20, 1, 0);
+        facts(x, 0, 0, -1, -1, -1, 0, 9999, 0);
+        x.paper(1, 1, 0, 1, 2, 30, 90);
+        facts(x, 1, 0, 0, 1, 2, 30, 90, 6);
+        ActTest.act(x, "proof copy 5;");
+        facts(x, 1, 0, 0, 1, 2, 30, 90, 5);
+        x.split(2, 30, 2, 5, 5, 0, 0);
+        facts(x, 1, 0, -1, -1, -1, 0, 9999, 0);
+    }
+
+    private static void twoOaths() {
+        for (int[] pair : new int[][] {{1, 3}, {3, 1}}) {
+            BurntHall x = hall();
+            ActTest.act(x, "proof oath 1 when a is 1; proof oath 3 when a is 3; oaths 2;");
+            for (int n : pair) {
+                Due.text(x, "a=" + n + ";");
+                x.paper(3, 0, 0, 1, 0, 0, 50);
+            }
+            facts(x, 0, 0, 0, 1, 0, 0, 50, 4, 4, 4, 4, 0);
+        }
     }
 
     private static void least() {
