@@ -9,15 +9,21 @@ final class Due {
 
     private static int wrong = 0;
     private static int asked = 0;
+    private static String context = "";
 
     private Due() {
+    }
+
+    /** What is asked from here on is told with this ahead of it. */
+    static void begin(String words) {
+        context = words;
     }
 
     static void is(String what, long got, long want) {
         asked++;
         if (got != want) {
             wrong++;
-            System.out.println(what + " answered " + got + ", due is " + want);
+            System.out.println(context + what + " answered " + got + ", due is " + want);
         }
     }
 
