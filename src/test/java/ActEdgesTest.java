@@ -86,14 +86,21 @@ public final class ActEdgesTest extends Edges {
         x.text("b;").paper(4, NONE, NONE, NONE, NONE, 0, 0);
         is("by the proofs of the FAULT", x.weight(0, 0), 0);
         is("by its own", x.weight(1, 0), 7);
-        x.act("proof tax 1 when a or not ?");
-        x.act("proof tax 1 when a and (a or not ?");
-        is("nor of what waited", x.act("proof tax 7 when b and (b);"), 1);
-        is("not a", x.weight(0, 0), 0);
-        is("b", x.weight(1, 0), 7);
         x.act("sure 3;proof tax 5;?");
         is("the ACT stays as it is", x.weight(1, 0), 7);
         is("its rules too", x.rule(0, 1), 20);
+    }
+
+    static void p23FaultLeavesNothingWaiting() {
+        for (String fault : new String[] {"not ?", "a or not ?", "a and ?", "a and (not ?", "(a or not ?", "not (a and ?"}) {
+            Hall x = new Hall();
+            x.text("a;").paper(4, NONE, NONE, NONE, NONE, 0, 0);
+            x.text("b;").paper(4, NONE, NONE, NONE, NONE, 0, 0);
+            x.act("proof tax 1 when " + fault);
+            is("sound, behind " + fault, x.act("proof tax 7 when b and (b);"), 1);
+            is("a, behind " + fault, x.weight(0, 0), 0);
+            is("b, behind " + fault, x.weight(1, 0), 7);
+        }
     }
 
     static void p23BoundsOfEachNumber() {
@@ -142,6 +149,27 @@ public final class ActEdgesTest extends Edges {
             bad(WHEN + c + ";", 1, 17);
             bad(WHEN + "a" + c + ";", 1, 18);
             bad(WHEN + "9" + c + ";", 1, 18);
+        }
+    }
+
+    static void p23EachByteAlone() {
+        Hall x = new Hall();
+        for (int c = 0; c < 256; c++) {
+            if (c % 64 == 0) x = new Hall();
+            boolean blank = c == 32 || c == 10;
+            is("byte " + c, x.act("" + (char) c), blank ? 0 : NONE);
+            is("place of byte " + c, x.fault(1), blank ? NONE : 0);
+        }
+    }
+
+    static void p23EachByteAsATerm() {
+        Hall x = new Hall();
+        for (int c = 0; c < 256; c++) {
+            if (c % 8 == 0) x = new Hall();
+            boolean term = c >= 'a' && c <= 'z' || c >= '0' && c <= '9';
+            is("byte " + c, x.act(WHEN + (char) c + ";"), term ? 1 : NONE);
+            boolean next = c == 32 || c == 10 || c == '(';
+            is("place of byte " + c, x.fault(1), term ? NONE : next ? 18 : 17);
         }
     }
 

@@ -327,6 +327,18 @@ public final class ChainEdgesTest extends Edges {
         chain(x, 2, 0, 6, b);
     }
 
+    static void p34BestOfTwoFromDayZeroOn() {
+        for (int strong : new int[] {0, 1}) {
+            Hall x = new Hall();
+            x.persons(2);
+            x.lots(1);
+            x.root(0, 0, 0);
+            x.act("proof copy 6;proof index 3;");
+            for (int b = 0; b < 2; b++) deed(x, b == strong ? 1 : 2, 0, 1, 0, 0);
+            chain(x, 1, 0, 6, strong);
+        }
+    }
+
     static void p34BestOfGaps() {
         Hall x = hall("");
         deed(x, 1, 9, 2, 200, 300);
@@ -348,6 +360,37 @@ public final class ChainEdgesTest extends Edges {
         x.root(0, 0, 0);
         is("two of its LINE", x.chain(3, 0, 0), 0);
         is("LOT 1", x.linked(3), 1);
+    }
+
+    static void p34OneLineOfSixty() {
+        Hall x = new Hall();
+        x.persons(3);
+        x.act("proof copy 6;");
+        x.oneLineOfSixty();
+        for (int l = 0; l < 45; l++) x.root(l, l == 44 ? 1 : 0, 44 - l);
+        is("from the first ROOT", x.chain(59, 0, 0), 0);
+        is("LOT 0", x.linked(3), 0);
+        is("from the last", x.chain(59, 1, 0), 0);
+        is("LOT 44", x.linked(3), 44);
+        int b = x.burnt();
+        x.paper(1, b, 0, 2, 59, 64, 9999);
+        is("by a LINK of the last LOT", x.chain(59, 2, 0), 0);
+        is("the least ROOT", x.linked(3), 0);
+        is("judge", x.judge("0", 59, 2, 0), 0);
+        is("of the first LOT it is none", x.chain(0, 2, 0), NONE);
+    }
+
+    static void p34ThirtyLinksToChooseFrom() {
+        Hall x = hall("");
+        for (int b = 0; b < 30; b++) deed(x, b == 29 ? 0 : 1, 0, 1, 200, 300);
+        chain(x, 1, 0, 99, 29);
+        is("judge of the last", x.judge("M", 0, 1, 0), 0);
+        for (int b = 0; b < 29; b++) x.paper(0, b, 0, 1, 0, 200, 300);
+        chain(x, 1, 0, 105, 0);
+        Hall y = hall("");
+        for (int b = 0; b < 30; b++) deed(y, 1, 9 - b % 9, 8 - b % 9, 200, 300);
+        chain(y, 8, 1, 6, 0);
+        chain(y, 0, 0, 999);
     }
 
     static void p34LastOfAll() {

@@ -534,6 +534,21 @@ public final class ClaimEdgesTest extends Edges {
         is("all NOT", x.count(23), 3);
     }
 
+    static void p47ThirtyClaims() {
+        Hall x = hall("notice 0;sure 12;doubt 6;years 1;");
+        deed(x, 1, 0, 1, 0);
+        for (int c = 0; c < 30; c++) x.claim(c == 29 ? 1 : 2, 0);
+        x.sit(0);
+        is("the last has it", x.ruled(0, 0), 29);
+        is("29 are NOT", x.count(23), 29);
+        is("nothing of that is so", x.open(0), 0);
+        deed(x, 0, 0, 2, 0);
+        is("others would be SURE", x.open(0), 1);
+        is("all as not RULED", x.count(20), 30);
+        is("heard together again", x.sit(0), 30);
+        is("the first has it", x.ruled(0, 0), 0);
+    }
+
     static void p47OpenedAgain() {
         Hall x = doubted("years 1;fund 5;");
         x.fund(8);

@@ -89,6 +89,13 @@ final class Hall {
         for (int i = 0; i < n; i++) lot(10, 0);
     }
 
+    /** 45 LOTS of none, then JOINED by fours and at last by three: LOT 59 has all sixty in its LINE. */
+    void oneLineOfSixty() {
+        lots(45);
+        for (int i = 0; i < 14; i++) join(4, 4 * i, 4 * i + 1, 4 * i + 2, 4 * i + 3, 50 + i, 40);
+        join(3, 56, 57, 58, 0, 64, 40);
+    }
+
     void burnts(int n) {
         for (int i = 0; i < n; i++) burnt();
     }

@@ -309,6 +309,14 @@ public final class LotEdgesTest extends Edges {
         is("another", x.line(1), 2);
     }
 
+    static void p17OfAllSixty() {
+        Hall x = new Hall();
+        x.oneLineOfSixty();
+        is("LOTS", x.count(3), 60);
+        is("the last one's", x.line(59), (1L << 60) - 1);
+        is("the first one's", x.line(0), 1);
+    }
+
     static void p17LongestLine() {
         Hall x = new Hall();
         x.lots(1);

@@ -88,6 +88,27 @@ public final class PaperEdgesTest extends Edges {
         is("the first", marked(x, "a;"), 0);
     }
 
+    static void p27EachByteOfMarks() {
+        Hall x = hall("");
+        int papers = 0;
+        for (int c = 0; c < 256; c++) {
+            if (c % 48 == 0) {
+                x = hall("");
+                papers = 0;
+            }
+            boolean letter = c >= 'a' && c <= 'z';
+            is("a mark of byte " + c, marked(x, (char) c + ";"), letter ? papers++ : NONE);
+            is("byte " + c + " between", marked(x, "a" + (char) c + "b;"), letter || c == ';' ? papers++ : NONE);
+        }
+    }
+
+    static void p27EmptiesTheTape() {
+        Hall x = hall("");
+        is("MARKS", marked(x, "a;b=2;"), 0);
+        is("bytes", x.count(11), 0);
+        is("the next has none of them", x.paper(1, 0, 0, 1, 0, 0, 9), 1);
+    }
+
     static void p27NoMarks() {
         Hall x = hall("proof copy 9 when a;");
         is("an empty TAPE", marked(x, ""), 0);

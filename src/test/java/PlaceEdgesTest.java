@@ -175,6 +175,15 @@ public final class PlaceEdgesTest extends Edges {
         is("next", x.next(8), 1);
         is("all eight", x.looked(0), 255);
         is("for one less", x.next(7), 0);
+        x.lots(1);
+        x.root(1, 0, 0);
+        x.burnt();
+        x.paper(1, 8, 0, 1, 1, 10, 20);
+        x.claim(1, 1);
+        x.sit(1);
+        x.place(1, 8, 6);
+        is("another LOT by its own", x.settles(256), 1);
+        is("both", x.settles(511), 2);
     }
 
     static void p50ThirtyLots() {

@@ -103,6 +103,17 @@ public final class TapeEdgesTest extends Edges {
         is("its first person", y.person(0), 0);
     }
 
+    static void p01The512thCall() {
+        Hall x = new Hall();
+        x.persons(80);
+        x.lots(60);
+        x.burnts(30);
+        for (int i = 0; i < 120; i++) x.paper(i % 7, i % 30, i % 80, (i + 1) % 80, i % 60, i, 9999 - i);
+        for (int i = 1; i <= 220; i++) is("TELLING " + i, x.same(i % 80, (i + 7) % 80), i);
+        is("the 511th", x.one(0, 1, 0), 1);
+        is("the 512th", x.count(2), 220);
+    }
+
     static void p02TwentyBytesEachTime() {
         Hall x = new Hall();
         for (int i = 1; i <= 50; i++) is("feed " + i, x.feed(BLANKS, BLANKS, BLANKS, BLANKS, BLANKS), 20 * i);
@@ -178,6 +189,40 @@ public final class TapeEdgesTest extends Edges {
         is("three and twenty", x.feed(0x20333b20, BLANKS, BLANKS, BLANKS, BLANKS), 23);
         is("one text", x.act(), 1);
         is("gap 3", x.rule(0, 3), 3);
+    }
+
+    static void p02OnlyReadersEmptyIt() {
+        Hall x = new Hall();
+        x.text("n5;");
+        x.persons(2);
+        x.lots(2);
+        x.burnt();
+        x.pass(1);
+        x.dead(0, 5);
+        x.same(0, 1);
+        x.split(0, 5, 2, 5, 5, 0, 0);
+        x.join(2, 2, 3, 0, 0, 6, 10);
+        x.error(0);
+        x.mend(0);
+        x.area(0);
+        x.strip(0, 1);
+        x.fault(0);
+        x.written(0, 0, 0, 0, 0);
+        x.pages(3);
+        x.root(0, 0, 0);
+        x.chain(0, 0, 0);
+        x.held(0, 0, 0, 0);
+        x.mortgage(0, 0, 1, 0, 0);
+        x.paid(0, 0);
+        x.claim(0, 1);
+        x.sit(1);
+        x.open(1);
+        x.fund(1);
+        x.place(1, 0, 1);
+        x.next(0);
+        is("bytes", x.count(11), 3);
+        is("they are read", x.bounds(1, 0, 0), 1);
+        is("then there are none", x.count(11), 0);
     }
 
     static void p03OfAnEmptyTape() {
