@@ -259,6 +259,10 @@ public final class ActEdgesTest extends Edges {
         bad(WHEN + "not(not(not(not(not(not(a))))));", 4, 17 + 23);
         bad(WHEN + "(((((a))))));", 1, 17 + 11);
         bad(WHEN + "(((((a))));", 1, 17 + 10);
+        bad(WHEN + "a);", 1, 17 + 1);
+        bad(WHEN + "(a));", 1, 17 + 3);
+        bad(WHEN + "(a) or b);", 1, 17 + 8);
+        bad(WHEN + ");", 1, 17);
         bad(WHEN + "a and (((((", 1, 17 + 11);
     }
 
@@ -302,6 +306,9 @@ public final class ActEdgesTest extends Edges {
             bad(WHEN + "a + " + word + ";", 1, 21);
             bad(WHEN + "a is " + word + ";", 1, 22);
         }
+        bad(WHEN + "a not b;", 1, 19);
+        bad(WHEN + "a when b;", 1, 19);
+        bad(WHEN + "a b;", 1, 19);
         bad(WHEN + "not;", 1, 20);
         bad(WHEN + "a is not;", 1, 22);
         bad(WHEN + "a + not b;", 1, 21);

@@ -170,19 +170,31 @@ public final class ChainEdgesTest extends Edges {
 
     static void p34GreatestWeakestOfSeven() {
         for (int turn = 0; turn < 7; turn++) {
-            for (int last = 0; last < 7; last += 2) {
+            for (int last = 0; last < 7; last++) {
+                int links = 2 + (turn + last) % 6;
                 Hall x = new Hall();
                 x.persons(3);
                 x.lots(1);
                 x.root(0, 0, 100);
                 x.act("proof deed 1;proof copy 2;proof index 3;proof oath 4;proof tax 5;proof plate 6;proof abstract 7;");
-                for (int i = 0; i < 7; i++) deed(x, (3 * i + turn) % 7, 0, 1, 200, 300);
-                int b = deed(x, last, 1, 2, 200, 300);
+                int strongest = 0;
+                for (int i = 0; i < links; i++) {
+                    deed(x, kindOf(turn, i), 0, 1, 200, 300);
+                    if (kindOf(turn, i) > kindOf(turn, strongest)) strongest = i;
+                }
+                int weakest = Math.min(last, kindOf(turn, strongest));
                 int first = 0;
-                while ((3 * first + turn) % 7 < last) first++;
-                chain(x, 2, 0, last + 1, first, b);
+                while (kindOf(turn, first) < weakest) first++;
+                int b = deed(x, last, 1, 2, 200, 300);
+                chain(x, 2, 0, weakest + 1, first, b);
+                chain(x, 1, 0, kindOf(turn, strongest) + 1, strongest);
             }
         }
+    }
+
+    /** Unlike kinds for the links of a turn, and so unlike WEIGHTS. */
+    private static int kindOf(int turn, int link) {
+        return (3 * link + turn) % 7;
     }
 
     static void p34RootOfTheLastDay() {
@@ -337,6 +349,18 @@ public final class ChainEdgesTest extends Edges {
             for (int b = 0; b < 2; b++) deed(x, b == strong ? 1 : 2, 0, 1, 0, 0);
             chain(x, 1, 0, 6, strong);
         }
+    }
+
+    static void p34NoneFromDayZeroOn() {
+        Hall x = new Hall();
+        x.persons(9);
+        x.lots(1);
+        x.root(0, 0, 0);
+        x.act("proof copy 6;");
+        for (int i = 0; i < 6; i += 2) deed(x, 1, i, i + 1, 0, 0);
+        chain(x, 8, NONE, 0);
+        chain(x, 1, 0, 6, 0);
+        chain(x, 3, 1, 6, 1);
     }
 
     static void p34BestOfGaps() {
@@ -499,8 +523,10 @@ public final class ChainEdgesTest extends Edges {
         for (char c : new char[] {0, 10, 32, 47, 48 + 30, 127, 128, 176, 255}) {
             is("byte " + (int) c, x.judge("" + c, 0, 2, 0), NONE);
             is("byte " + (int) c + " behind one", x.judge("0" + c, 0, 1, 0), NONE);
+            is("byte " + (int) c + " ahead of one", x.judge(c + "0", 0, 1, 0), NONE);
         }
         is("one of which nothing is SHOWN", x.judge("1", 0, 1, 0), NONE);
+        is("ahead of one", x.judge("10", 0, 1, 0), NONE);
         is("a blank is no LINK", x.judge("0M ", 0, 2, 0), NONE);
     }
 

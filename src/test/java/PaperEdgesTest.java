@@ -318,6 +318,10 @@ public final class PaperEdgesTest extends Edges {
         holds("1", "", true);
         holds("a+b+0", "a=0;b=0;", false);
         holds("a+b+c", "c=1;", true);
+        holds("a and b", "a=2;b=1;", true);
+        holds("a and b is 1", "a=4;b=1;", true);
+        holds("a and b above 0 and c below 1", "a=4;b=8;", true);
+        holds("not c and b", "b=6;", true);
     }
 
     static void p30AboveBelowIs() {
