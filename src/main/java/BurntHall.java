@@ -534,11 +534,8 @@ public final class BurntHall {
         long value;
         int faultKind;
         int faultPlace = NONE;
-        private int at;
-        private int tokens;
-        private final byte[] kinds = new byte[ROOM];
-        private final int[] places = new int[ROOM];
-        private final long[] values = new long[ROOM];
+        /** The first byte behind that TOKEN. */
+        private int behind;
 
         void put(int four) {
             for (int shift = 24; shift >= 0; shift -= 8) {
@@ -564,68 +561,39 @@ public final class BurntHall {
             rewind();
         }
 
-        /** All TOKENS are cut here, the reader then comes to the first. */
         void rewind() {
-            tokens = 0;
-            int from = 0;
-            for (int round = 0; round < ROOM && from < length; round++) {
-                int c = byteAt(from);
-                from = c == 32 || c == 10 ? from + 1 : cut(from, c);
-            }
-            at = NONE;
+            behind = 0;
             step();
         }
 
-        /** Cuts the TOKEN that begins at a byte: where it ends. */
-        private int cut(int from, int first) {
-            if (isLetter(first)) {
-                return cutWord(from);
-            }
-            if (isDigit(first)) {
-                return cutNumber(from);
-            }
-            boolean sign = first == ';' || first == '=' || first == '(' || first == ')' || first == '+';
-            keep(sign ? SIGN : WRONG, from, first);
-            return from + 1;
-        }
-
-        private int cutWord(int from) {
-            int to = from;
-            long word = 0;
-            for (int i = 0; i < ROOM && isLetter(byteAt(to)); i++) {
-                word = withLetter(word, byteAt(to));
-                to++;
-            }
-            keep(to - from > LONGEST_WORD ? WRONG : WORD, from, word);
-            return to;
-        }
-
-        private int cutNumber(int from) {
-            int to = from;
-            long number = 0;
-            for (int i = 0; i < ROOM && isDigit(byteAt(to)); i++) {
-                number = number * 10 + byteAt(to) - '0';
-                to++;
-            }
-            keep(to - from > LONGEST_NUMBER ? WRONG : NUMBER, from, number);
-            return to;
-        }
-
-        private void keep(int sort, int from, long worth) {
-            if (tokens < ROOM) {
-                kinds[tokens] = (byte) sort;
-                places[tokens] = from;
-                values[tokens] = worth;
-                tokens++;
-            }
-        }
-
+        /** The reader comes to the next TOKEN. It is cut in one go: those who read stand deep already. */
         void step() {
-            at++;
-            boolean more = at >= 0 && at < tokens && at < ROOM;
-            kind = more ? kinds[at] : END;
-            place = more ? places[at] : length;
-            value = more ? values[at] : 0;
+            int from = behind;
+            while (from < length && isBlank(byteAt(from))) {
+                from++;
+            }
+            int to = from;
+            int first = byteAt(from);
+            value = 0;
+            if (isLetter(first)) {
+                for (; to < length && isLetter(byteAt(to)); to++) {
+                    value = withLetter(value, byteAt(to));
+                }
+                kind = to - from > LONGEST_WORD ? WRONG : WORD;
+            } else if (isDigit(first)) {
+                for (; to < length && isDigit(byteAt(to)); to++) {
+                    value = value * 10 + byteAt(to) - '0';
+                }
+                kind = to - from > LONGEST_NUMBER ? WRONG : NUMBER;
+            } else if (from < length) {
+                kind = isSignByte(first) ? SIGN : WRONG;
+                value = first;
+                to++;
+            } else {
+                kind = END;
+            }
+            place = from;
+            behind = to;
         }
 
         boolean isSign(char sign) {
@@ -654,6 +622,14 @@ public final class BurntHall {
 
         private static boolean isDigit(int c) {
             return c >= '0' && c <= '9';
+        }
+
+        private static boolean isBlank(int c) {
+            return c == ' ' || c == '\n';
+        }
+
+        private static boolean isSignByte(int c) {
+            return c == ';' || c == '=' || c == '(' || c == ')' || c == '+';
         }
 
         /** Twelve letters of five bits fit a long, so that WORDS are compared as numbers. */
@@ -706,8 +682,8 @@ public final class BurntHall {
         int day;
         int proofs;
         private final int[] rules = new int[RULES];
-        private final int[] kinds = new int[MOST_PROOFS];
-        private final int[] weights = new int[MOST_PROOFS];
+        /** Of each proof its KIND times 100 and its N. */
+        private final int[] proofRow = new int[MOST_PROOFS];
         private final int[] starts = new int[MOST_PROOFS + 1];
         private long[] steps = new long[0];
 
@@ -733,8 +709,7 @@ public final class BurntHall {
         /** A proof's steps are those behind the steps of the proof before it, up to end. */
         void addProof(int kind, int weight, int end) {
             if (proofs < MOST_PROOFS) {
-                kinds[proofs] = kind;
-                weights[proofs] = weight;
+                proofRow[proofs] = kind * 100 + weight;
                 proofs++;
                 starts[proofs] = end;
             }
@@ -748,9 +723,9 @@ public final class BurntHall {
 
         int weightOf(Papers papers, int k, int[] stack) {
             for (int i = proofs - 1; i >= 0; i--) {
-                if (kinds[i] == papers.kind[k]
+                if (proofRow[i] / 100 == papers.kind[k]
                         && (starts[i] == starts[i + 1] || holds(i, papers, k, stack))) {
-                    return weights[i];
+                    return proofRow[i] % 100;
                 }
             }
             return 0;
@@ -1984,8 +1959,8 @@ public final class BurntHall {
         private final int[] got = new int[MOST];
         /** LINKS with which the CHAIN may end, as bits. */
         private int enders;
-        /** 1 for a GAP between a holder and a LINK: a row for each LINK's, then for each LOT's ROOT. */
-        private final int[] gapTable = new int[(MOST + Lots.ROOM) * MOST];
+        /** LINKS that follow a holder without a GAP, as bits: of each LINK's holder, then of each LOT's ROOT. */
+        private final int[] followers = new int[MOST + Lots.ROOM];
         /**
          * Of LINKS to come and a LINK: the latest begin with which the CHAIN can still be ended
          * from that LINK on without a GAP; NONE if with none. (An earlier begin is never worse.)
@@ -2059,14 +2034,14 @@ public final class BurntHall {
                 }
             }
             for (int c = 0; c < size; c++) {
-                fillGaps(c, got[c]);
+                followers[c] = linksAfter(got[c]);
                 enders |= endsWith(got[c]) ? 1 << c : 0;
             }
             roots = 0L;
             for (int o = 0; o < lots.size; o++) {
                 if (lots.isAmong(o, origin) && lots.rootHolder[o] != NONE) {
                     roots |= 1L << o;
-                    fillGaps(MOST + o, people.groupOf(lots.rootHolder[o]));
+                    followers[MOST + o] = linksAfter(people.groupOf(lots.rootHolder[o]));
                 }
             }
         }
@@ -2083,13 +2058,15 @@ public final class BurntHall {
             }
         }
 
-        private void fillGaps(int from, int holder) {
+        private int linksAfter(int holder) {
+            int bits = 0;
             for (int d = 0; d < size; d++) {
                 boolean inherited = heirs && people.isDeadBy(holder, finish[d])
                         && people.isChild(holder, gave[d]);
                 boolean follows = gave[d] != NONE && (gave[d] == holder || inherited);
-                gapTable[from * MOST + d] = follows ? 0 : 1;
+                bits |= follows ? 1 << d : 0;
             }
+            return bits;
         }
 
         private boolean endsWith(int holder) {
@@ -2185,7 +2162,7 @@ public final class BurntHall {
             int day = NONE;
             for (int d = 0; d < size; d++) {
                 int then = latest[(toCome - 1) * MOST + d];
-                if (gapTable[c * MOST + d] == 0 && then >= begin[d]) {
+                if ((followers[c] >>> d & 1) != 0 && then >= begin[d]) {
                     day = Math.max(day, Math.min(then, finish[d]));
                 }
             }
@@ -2214,8 +2191,8 @@ public final class BurntHall {
         /** The first LINK by which a CHAIN of so many more LINKS can go on without a GAP. */
         private int leastNext(int from, int day, int links) {
             for (int d = 0; d < size && links > 0; d++) {
-                if (gapTable[from * MOST + d] == 0 && day <= finish[d]
-                        && Math.max(day, begin[d]) <= latest[(links - 1) * MOST + d]) {
+                int then = latest[(links - 1) * MOST + d];
+                if ((followers[from] >>> d & 1) != 0 && day <= finish[d] && day <= then && begin[d] <= then) {
                     return d;
                 }
             }
@@ -2286,7 +2263,7 @@ public final class BurntHall {
                 if (finish[d] < day) {
                     return NONE;
                 }
-                gaps += gapTable[from * MOST + d];
+                gaps += 1 - (followers[from] >>> d & 1);
                 day = Math.max(day, begin[d]);
                 from = d;
             }
@@ -2555,11 +2532,11 @@ public final class BurntHall {
         private final int[] burnt = new int[ROOM];
         private final int[] points = new int[ROOM];
         private final int[] added = new int[Evidence.ROOM];
-        /** Of each LOT that could be settled: its LINKS that lack POINTS, and how many each. */
+        /** Of each LOT that could be settled (each by another CLAIM): its LINKS that lack POINTS, and how many. */
         private int cases;
-        private final int[] lackCount = new int[Lots.ROOM];
-        private final int[] lackBurnt = new int[Lots.ROOM * Chains.MOST_LINKS];
-        private final int[] lackPoints = new int[Lots.ROOM * Chains.MOST_LINKS];
+        private final int[] lackCount = new int[Claims.ROOM];
+        private final int[] lackBurnt = new int[Claims.ROOM * Chains.MOST_LINKS];
+        private final int[] lackPoints = new int[Claims.ROOM * Chains.MOST_LINKS];
         private boolean hasLooked;
         private int lookedSet;
         private int lookedCost;
@@ -2592,7 +2569,7 @@ public final class BurntHall {
 
         private void gather(int today) {
             cases = 0;
-            for (int l = 0; l < Lots.ROOM; l++) {
+            for (int l = 0; l < Lots.ROOM && cases < Claims.ROOM; l++) {
                 if (claims.isDoubtful(l, today)) {
                     int p = claims.person[claims.winnerOf(l)];
                     if (chains.search(l, p) != NONE && addCase(acts.inForce(today))) {
