@@ -152,6 +152,18 @@ public final class BoundsEdgesTest extends Edges {
         is("its corner", x.about(59, 6), 1);
     }
 
+    static void p18OfALotThatIsntThere() {
+        Hall x = new Hall();
+        x.lots(1);
+        x.lot(10, 9999);
+        x.split(0, 5, 2, 5, 5, 0, 0);
+        x.pass(50);
+        is("SPLIT", x.bounds("n5;e5;s5;w4;", 0, 0, 0), 4);
+        is("not there yet", x.bounds("n5;e5;s5;w5;", 1, 0, 0), 4);
+        is("MENDED", x.mend(0), 1);
+        is("STRIP", x.strip(0, 1), 20);
+    }
+
     private static Hall with(String text) {
         Hall x = hall();
         x.bounds(text, 0, 0, 0);

@@ -78,6 +78,15 @@ public final class ChainEdgesTest extends Edges {
         is("on day 9999", x.chain(0, 0, 9999), 0);
     }
 
+    static void p33AheadOfTheLot() {
+        Hall x = new Hall();
+        x.persons(1);
+        x.lot(10, 500);
+        x.dead(0, 3);
+        is("a day ahead of its first, of one DEAD", x.root(0, 0, 4), 1);
+        is("it is held", x.chain(0, 0, 0), 0);
+    }
+
     static void p34NoSuchNumbers() {
         Hall x = hall("");
         each("LOT", RANGE, l -> x.chain(l, 0, 0), beyond(0, 0));
@@ -263,6 +272,56 @@ public final class ChainEdgesTest extends Edges {
         x.same(2, 1);
         is("one with the CHILD, not KNOWN", x.chain(0, 2, 29), NONE);
         is("KNOWN", x.chain(0, 2, 30), 0);
+    }
+
+    static void p34HeirsByTheActOfThatDay() {
+        Hall x = hall("");
+        x.child(0, 1);
+        x.dead(0, 0);
+        deed(x, 1, 1, 2, 200, 300);
+        x.pass(10);
+        x.act("proof copy 6;heirs;");
+        x.pass(10);
+        x.act("proof copy 6;");
+        int[] days = {9, 10, 19, 20};
+        for (int known : days) {
+            boolean heirs = known == 10 || known == 19;
+            is("the heir, KNOWN on " + known, x.chain(0, 1, known), heirs ? 0 : NONE);
+            is("what the heir gave, KNOWN on " + known, x.chain(0, 2, known), heirs ? 0 : 1);
+            is("judged, KNOWN on " + known, x.judge("0", 0, 2, known), heirs ? 0 : 1);
+        }
+    }
+
+    /** Terms I: DEAD and CHILDREN are those of any who is ONE. */
+    static void p34HeirsOfAnyWhoIsOne() {
+        Hall x = hall("heirs;");
+        x.child(7, 8);
+        x.dead(6, 150);
+        int a = deed(x, 1, 9, 2, 200, 300);
+        chain(x, 2, 1, 6, a);
+        x.same(6, 7);
+        x.same(9, 8);
+        chain(x, 2, 1, 6, a);
+        chain(x, 9, NONE, 0);
+        x.same(7, 0);
+        chain(x, 2, 0, 6, a);
+        chain(x, 9, 0, 999);
+        x.child(2, 3);
+        chain(x, 3, NONE, 0);
+        x.dead(2, 9999);
+        chain(x, 3, 0, 6, a);
+    }
+
+    static void p34LotsAreKnownAlways() {
+        Hall x = hall("");
+        x.paper(1, x.burnt(), 0, 1, 0, 200, 300);
+        x.pass(100);
+        x.split(0, 400, 2, 5, 5, 0, 0);
+        is("of a LOT that came later, KNOWN on day 0", x.chain(1, 1, 0), 0);
+        is("its ROOT", x.linked(3), 0);
+        x.lots(1);
+        x.join(2, 1, 3, 0, 0, 500, 20);
+        is("of a JOINING", x.chain(4, 1, 0), 0);
     }
 
     static void p34EightLinks() {
@@ -650,6 +709,17 @@ public final class ChainEdgesTest extends Edges {
         x.written(5, 5, 100, 0, 0);
         x.dead(5, 99);
         is("not if it can't be", x.held(0, 1, 0, 0), 0);
+    }
+
+    static void p37OfABurntOneToo() {
+        Hall x = hall("");
+        x.paper(4, x.burnt(), 2, 1, 0, 0, 9);
+        is("who got", x.held(0, 1, 0, 0), 1);
+        is("not who gave", x.held(0, 2, 0, 0), 0);
+        x.paper(4, 0, 2, 3, 0, 0, 9);
+        is("who got is a QUARREL", x.shown(0, 0, 9), 2);
+        is("the PAPER SHOWS it all the same", x.held(0, 1, 0, 0), 1);
+        is("so does the other", x.held(0, 3, 0, 0), 1);
     }
 
     static void p37WeightAboveZero() {

@@ -222,6 +222,24 @@ public final class ClaimEdgesTest extends Edges {
         is("both without: the least number", y.ruled(0, 0), 0);
     }
 
+    static void p43LotThatIsGone() {
+        Hall x = hall("notice 5;sure 12;doubt 6;years 1;");
+        deed(x, 1, 0, 1, 0);
+        x.claim(1, 0);
+        x.claim(0, 1);
+        x.split(0, 25, 2, 5, 5, 0, 0);
+        x.split(1, 25, 2, 5, 5, 0, 0);
+        x.pass(25);
+        is("no CLAIM more", x.claim(0, 0), STATE);
+        is("SPLIT since, heard all the same", x.sit(0), 1);
+        is("with DOUBT", x.ruled(0, 2), 2);
+        is("SURE", x.sit(1), 1);
+        is("the other", x.ruled(1, 2), 1);
+        x.dead(1, 9);
+        is("OPENED", x.open(0), 1);
+        is("heard again", x.sit(0), 1);
+    }
+
     static void p44NoSuchClaim() {
         Hall x = hall("");
         is("none at all", x.worth(0), RANGE);
@@ -484,6 +502,18 @@ public final class ClaimEdgesTest extends Edges {
         is("would be SURE", y.worth(1), 1);
         is("OPENED too", y.open(0), 1);
         is("all as not RULED", y.count(20), 2);
+    }
+
+    static void p47AnotherOfTheSamePerson() {
+        Hall x = doubted("years 1;fund 3;");
+        x.fund(9);
+        x.claim(1, 0);
+        is("another CLAIM with DOUBT", x.open(0), 0);
+        x.paper(1, 0, 0, 1, 0, 10, 20);
+        is("both would be SURE", x.worth(0) + x.worth(1), 2);
+        is("another CLAIM would be", x.open(0), 1);
+        is("pounds of the one that had it", x.claimed(0, 4), 3);
+        is("none of the other", x.claimed(1, 4), 0);
     }
 
     static void p47PoundsFromTheCoin() {

@@ -20,8 +20,41 @@ public final class LanguageTest {
 
     public static void main(String[] args) throws IOException {
         face(Files.readString(DOCUMENT));
+        faceAsWritten(Files.readString(DOCUMENT), Files.readString(SOURCE));
+        sections(Files.readString(DOCUMENT), Files.readString(SOURCE));
         source(Files.readString(SOURCE));
         Due.end();
+    }
+
+    /** 'The public face' line by line, in its order: constants with their numbers, parameters with their names. */
+    private static void faceAsWritten(String document, String source) {
+        String block = document.substring(document.indexOf("public final class BurntHall"), document.indexOf("## Terms"));
+        List<String> wanted = linesOf(block, "    public ");
+        List<String> there = linesOf(source, "    public ").stream().map(line -> line.replace(" {", ";")).toList();
+        Due.is("lines of the face", there.size(), wanted.size());
+        for (int i = 0; i < Math.min(wanted.size(), there.size()); i++) {
+            Due.is("line " + i + " of the face, " + there.get(i), there.get(i).equals(wanted.get(i)) ? 1 : 0, 1);
+        }
+    }
+
+    private static List<String> linesOf(String text, String start) {
+        return text.lines().filter(line -> line.startsWith(start)).toList();
+    }
+
+    /** Terms, the last rows: what the interface says ahead of which calls. */
+    private static void sections(String document, String source) {
+        List<String> wanted = new ArrayList<>();
+        Matcher m = Pattern.compile("Ahead of the calls (.*) the interface says: (---- [a-z ]+)\\.").matcher(document);
+        while (m.find()) {
+            wanted.add(m.group(2));
+            for (String call : m.group(1).split(", ")) wanted.add(call.replace("`", ""));
+        }
+        List<String> there = new ArrayList<>();
+        Matcher s = Pattern.compile("(?m)^    (?:// (---- .*)|public (?:int|long) (\\w+)\\(.*)$").matcher(source);
+        while (s.find()) there.add(s.group(1) != null ? s.group(1) : s.group(2));
+        Due.is("sections of the interface", wanted.stream().filter(w -> w.startsWith("----")).count(), 8);
+        List<String> fromThere = there.subList(Math.max(0, there.indexOf("---- persons")), there.size());
+        Due.is("what the interface says: " + fromThere, fromThere.equals(wanted) ? 1 : 0, 1);
     }
 
     private static void face(String document) {

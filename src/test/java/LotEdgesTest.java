@@ -136,6 +136,19 @@ public final class LotEdgesTest extends Edges {
         is("RANGE ahead of both", x.split(0, 49, 2, 1, 0, 0, 0), RANGE);
     }
 
+    static void p14NewOnesHaveNoBounds() {
+        Hall x = new Hall();
+        x.lots(3);
+        for (int l = 0; l < 3; l++) x.bounds("n5;e5;s5;w5;", l, 1, 2);
+        x.split(0, 9, 2, 5, 5, 0, 0);
+        x.join(2, 1, 2, 0, 0, 9, 20);
+        for (int l = 3; l < 6; l++) {
+            for (int what = 5; what < 8; what++) is("LOT " + l + " what " + what, x.about(l, what), 0);
+            is("ERROR of LOT " + l, x.error(l), STATE);
+        }
+        for (int l = 0; l < 3; l++) is("those that were keep theirs, " + l, x.area(l), 25);
+    }
+
     static void p15NoSuchLotOrDay() {
         Hall x = new Hall();
         x.lots(6);

@@ -45,6 +45,17 @@ public final class MortgageEdgesTest extends Edges {
         is("its RANK", x.rank(39, 5, 0), 39);
     }
 
+    static void p38OfALotThatIsntThere() {
+        Hall x = hall();
+        x.split(0, 20, 2, 5, 5, 0, 0);
+        x.dead(1, 3);
+        x.pass(500);
+        is("SPLIT ahead of it, to one DEAD", x.mortgage(0, 1, 1, 30, 40), 0);
+        is("not there yet", x.mortgage(2, 1, 1, 10, 40), 1);
+        is("the one STANDS, KNOWN ahead of its telling", x.stands(0, 30, 0), 1);
+        is("so does the other", x.stands(1, 10, 0), 1);
+    }
+
     static void p39NoSuchNumbers() {
         Hall x = hall();
         is("none at all", x.paid(0, 0), RANGE);

@@ -36,6 +36,14 @@ public final class PaperEdgesTest extends Edges {
         facts(x, 0, 9999, NONE, NONE, NONE, 0, 9999, 0, 0, 0, 0, 0);
     }
 
+    static void p26KnownAlways() {
+        Hall x = new Hall();
+        x.pass(50);
+        x.burnt();
+        facts(x, 0, 0, NONE, NONE, NONE, 0, 9999, 0, 0, 0, 0, 0);
+        is("a day ahead of it", x.shown(0, 49, 9), 0);
+    }
+
     static void p27NoSuchNumbers() {
         Hall x = hall("");
         each("kind", RANGE, n -> x.paper(n, 0, 0, 0, 0, 0, 0), beyond(0, 6));
@@ -254,6 +262,20 @@ public final class PaperEdgesTest extends Edges {
         is("SHOWN by forty", x.shown(0, 0, 8), 240);
     }
 
+    static void p29HoldsOnAllDays() {
+        Hall x = hall("");
+        for (int k = 0; k < 2; k++) {
+            x.paper(1, 0, 0, 1, 0, 0, 9);
+            x.written(k, 0, 0, 3, 4);
+        }
+        x.pass(50);
+        x.pages(1);
+        is("as KNOWN on a day ahead of its telling", x.cant(1, 0), 5);
+        x.pages(2);
+        is("told anew", x.cant(1, 0), 0);
+        is("as KNOWN today", x.cant(1, 50), 0);
+    }
+
     static void p30NoSuchPaperOrDay() {
         Hall x = hall("");
         is("none at all", x.weight(0, 0), RANGE);
@@ -368,6 +390,17 @@ public final class PaperEdgesTest extends Edges {
         }
     }
 
+    static void p30WhetherItCanBeOrNot() {
+        Hall x = hall("");
+        x.paper(1, 0, 5, 1, 0, 20, 30);
+        x.dead(5, 0);
+        is("it can't be", x.cant(0, 0), 3);
+        is("its WEIGHT", x.weight(0, 0), 6);
+        x.pass(9);
+        x.paper(1, 0, 0, 1, 0, 20, 30);
+        is("of a day on which it wasn't KNOWN", x.weight(1, 0), 6);
+    }
+
     static void p31NoSuchPaperOrDay() {
         Hall x = hall("");
         is("none at all", x.cant(0, 0), RANGE);
@@ -437,6 +470,32 @@ public final class PaperEdgesTest extends Edges {
         is("there on one day", ofLot(100, 101, 0, 9999), 0);
         is("from the last day on", ofLot(9999, NONE, 9999, 9999), 0);
         is("ahead of the last day", ofLot(9999, NONE, 0, 9998), 2);
+    }
+
+    static void p31LotsAreKnownAlways() {
+        Hall x = new Hall();
+        x.lots(1);
+        x.paper(1, NONE, NONE, NONE, 0, 60, 70);
+        x.pass(100);
+        is("it is there", x.cant(0, 0), 0);
+        x.split(0, 60, 2, 5, 5, 0, 0);
+        is("its SPLIT, told later, counts as KNOWN on day 0", x.cant(0, 0), 2);
+        x.paper(1, NONE, NONE, NONE, 1, 60, 70);
+        is("so do LOTS that came of it", x.cant(1, 0), 0);
+        x.lot(10, 65);
+        x.paper(1, NONE, NONE, NONE, 3, 60, 64);
+        is("so does the first day of another", x.cant(2, 0), 2);
+    }
+
+    static void p31HandToldLater() {
+        Hall x = hall("");
+        int young = x.person(80);
+        x.paper(1, 0, 0, 1, 0, 0, 9);
+        x.pass(40);
+        is("nothing told: passed by", x.cant(0, 0), 0);
+        x.written(0, young, 79, 0, 0);
+        is("told: it can't be, on day 0 too", x.cant(0, 0), 1);
+        is("nor today", x.cant(0, 40), 1);
     }
 
     static void p31LotJoined() {
