@@ -257,6 +257,22 @@ public final class BoundsEdgesTest extends Edges {
         mended("e3;s2;w5;n5;", 5, 3, 2, 3, 2);
     }
 
+    static void p20OfAnotherLot() {
+        Hall x = new Hall();
+        x.lots(60);
+        x.bounds("s9;n2;w9;e2;", 0, 0, 0);
+        for (int l : new int[] {1, 3, 59}) {
+            x.bounds("n5;n5;s7;e2;w4;", l, 0, 0);
+            is("ERROR of " + l, x.error(l), 5);
+            is("mend of " + l, x.mend(l), 5);
+            int[] lines = {2, 5, 200007, 100002, 300002};
+            for (int i = 0; i < 5; i++) is("line " + i + " of " + l, x.about(l, 10 + i), lines[i]);
+        }
+        is("the first stays", x.error(0), 14);
+        int[] lines = {200009, 2, 300009, 100002};
+        for (int i = 0; i < 4; i++) is("line " + i, x.about(0, 10 + i), lines[i]);
+    }
+
     static void p20NoneChangesNothing() {
         Hall x = with("n5;s4;e1;");
         is("no way for x", x.mend(0), NONE);
@@ -298,6 +314,8 @@ public final class BoundsEdgesTest extends Edges {
     static void p21MustClose() {
         area("n5;e3;s5;w2;", NONE);
         area("n5;e3;s4;w3;", NONE);
+        area("n4;e3;s5;w3;", NONE);
+        area("n5;e2;s5;w3;", NONE);
         area("n5;e3;s5;", NONE);
         area("n5;", NONE);
     }
@@ -321,6 +339,10 @@ public final class BoundsEdgesTest extends Edges {
         area("n4;e4;s2;w3;s2;w1;", 8 + 2);
         area("e4;n4;w4;s2;e4;s1;w4;s1;", NONE);
         area("e4;n4;w4;s2;e3;s1;w3;s1;", 16 - 3);
+        // The last one alone meets another, and the first one alone.
+        area("n2;e2;s4;e2;n2;w4;", NONE);
+        area("e2;s2;w4;s2;e2;n4;", NONE);
+        area("w4;n2;e2;s4;e2;n2;", NONE);
     }
 
     static void p21LastAndFirst() {
@@ -389,6 +411,20 @@ public final class BoundsEdgesTest extends Edges {
         is("within", strip(ten, 0, 0, "n1;e1;s1;w1;", 9, 9), 1);
         is("other ways round", strip(ten, 0, 0, "e10;n10;w10;s10;", 0, 0), 100);
         is("below 0", strip("w10;s10;e10;n10;", 0, 0, "s5;w5;n5;e5;", 0, 0), 25);
+    }
+
+    static void p22OfTheLastLots() {
+        Hall x = new Hall();
+        x.lots(60);
+        x.bounds("e6;n5;w2;s4;w2;n4;w2;s5;", 58, 0, 0);
+        x.bounds("n3;e9;s3;w9;", 59, 0, 0);
+        is("AREA of 58", x.area(58), 22);
+        is("AREA of 59", x.area(59), 27);
+        is("STRIP", x.strip(58, 59), 6 + 8);
+        is("the other way", x.strip(59, 58), 6 + 8);
+        x.bounds("n2;e1;s2;w1;", 0, 0, 0);
+        is("of the first and the last", x.strip(0, 59), 2);
+        is("of the last and the first", x.strip(59, 0), 2);
     }
 
     static void p22BentOnes() {

@@ -157,6 +157,83 @@ public final class ChainEdgesTest extends Edges {
         }
     }
 
+    static void p34LeastRowFromTheRootsDay() {
+        Hall x = hall("");
+        deed(x, 1, 0, 1, 0, 99);
+        int b = deed(x, 1, 0, 1, 0, 100);
+        deed(x, 1, 1, 2, 0, 99);
+        int d = deed(x, 1, 1, 2, 0, 150);
+        chain(x, 1, 0, 6, b);
+        chain(x, 2, 0, 6, b, d);
+    }
+
+    /** Of more LINKS that could follow, whichever goes on longest counts, not the last of them. */
+    static void p34OneThatGoesOnLonger() {
+        int[][] orders = {{350, 299}, {299, 350}};
+        for (int[] order : orders) {
+            Hall x = hall("");
+            int a = deed(x, 1, 0, 1, 300, 400);
+            int b = deed(x, 1, 1, 2, 100, order[0]);
+            int c = deed(x, 1, 1, 2, 100, order[1]);
+            chain(x, 2, 0, 6, a, order[0] == 350 ? b : c);
+            int d = deed(x, 1, 2, 3, 100, 500);
+            chain(x, 3, 0, 6, a, order[0] == 350 ? b : c, d);
+        }
+    }
+
+    static void p34NumbersOfBurntOnes() {
+        Hall x = hall("");
+        x.burnts(3);
+        int a = deed(x, 1, 9, 2, 200, 300);
+        chain(x, 2, 1, 6, a);
+        int b = deed(x, 1, 0, 2, 200, 300);
+        chain(x, 2, 0, 6, b);
+        is("they are", a * 10 + b, 34);
+    }
+
+    /** Terms IV: the holder is ONE with who gave, whichever of their numbers is the lesser. */
+    static void p34HoldersWhoAreOne() {
+        Hall x = new Hall();
+        x.persons(10);
+        x.lots(1);
+        x.act("proof copy 6;");
+        x.root(0, 9, 100);
+        int a = deed(x, 1, 3, 8, 200, 300);
+        int b = deed(x, 1, 2, 7, 200, 300);
+        chain(x, 8, 1, 6, a);
+        chain(x, 7, 1, 6, b);
+        chain(x, 3, NONE, 0);
+        x.same(9, 3);
+        chain(x, 3, 0, 999);
+        chain(x, 8, 0, 6, a);
+        is("the first row judged", x.judge("0", 0, 8, 0), 0);
+        x.same(2, 8);
+        chain(x, 2, 0, 6, a);
+        chain(x, 7, 0, 6, a, b);
+        is("both judged", x.judge("01", 0, 7, 0), 0);
+        x.same(7, 1);
+        chain(x, 1, 0, 6, a, b);
+    }
+
+    static void p34RootsOfItsLineAlone() {
+        Hall x = new Hall();
+        x.persons(3);
+        x.lots(3);
+        x.act("proof copy 6;");
+        for (int l = 0; l < 3; l++) {
+            x.root(l, 0, 100);
+            x.paper(1, x.burnt(), 0, 1, l, 200, 300);
+        }
+        for (int l : new int[] {0, 2, 1, 0}) {
+            is("chain of " + l, x.chain(l, 1, 0), 0);
+            is("its ROOT", x.linked(3), l);
+            is("its LINK", x.linked(10), l);
+            is("without LINKS", x.chain(l, 0, 0), 0);
+            is("its ROOT", x.linked(3), l);
+            is("judged by that of another", x.judge("" + (char) (48 + (l + 1) % 3), l, 1, 0), NONE);
+        }
+    }
+
     static void p34LeastRowThatCanGoOn() {
         Hall x = hall("");
         int late = deed(x, 1, 0, 1, 301, 400);
@@ -312,6 +389,34 @@ public final class ChainEdgesTest extends Edges {
         chain(x, 3, 0, 6, a);
     }
 
+    /** Terms I: whichever number of those who are ONE was told a CHILD. */
+    static void p34ChildByAGreaterNumber() {
+        Hall x = hall("heirs;");
+        x.child(8, 9);
+        x.dead(8, 150);
+        x.same(8, 0);
+        int a = deed(x, 1, 3, 2, 200, 300);
+        chain(x, 2, 1, 6, a);
+        chain(x, 3, NONE, 0);
+        x.same(3, 9);
+        chain(x, 2, 0, 6, a);
+        chain(x, 3, 0, 999);
+        chain(x, 9, 0, 999);
+    }
+
+    static void p34NoRootOfWhatCameOfOthers() {
+        Hall x = hall("");
+        x.split(0, 50, 2, 5, 5, 0, 0);
+        x.lots(1);
+        x.join(2, 1, 3, 0, 0, 60, 15);
+        for (int l : new int[] {1, 4}) {
+            int b = x.burnt();
+            x.paper(1, b, 0, l, l, 0, 99);
+            is("ends ahead of the only ROOT, LOT " + l, x.chain(l, l, 0), NONE);
+            is("nor by a row, LOT " + l, x.judge("" + (char) (48 + b), l, l, 0), NONE);
+        }
+    }
+
     static void p34LotsAreKnownAlways() {
         Hall x = hall("");
         x.paper(1, x.burnt(), 0, 1, 0, 200, 300);
@@ -427,6 +532,8 @@ public final class ChainEdgesTest extends Edges {
         deed(x, 1, 9, 2, 200, 300);
         int b = deed(x, 0, 9, 2, 200, 300);
         deed(x, 0, 9, 2, 200, 300);
+        chain(x, 2, 1, 99, b);
+        deed(x, 2, 9, 2, 200, 300);
         chain(x, 2, 1, 99, b);
     }
 
@@ -589,6 +696,48 @@ public final class ChainEdgesTest extends Edges {
         is("a blank is no LINK", x.judge("0M ", 0, 2, 0), NONE);
     }
 
+    static void p36NoLinksInARow() {
+        Hall x = hall("");
+        int a = deed(x, 1, 0, 1, 200, 300);
+        int noTaker = deed(x, 1, 1, NONE, 200, 300);
+        int noLot = x.burnt();
+        x.paper(1, noLot, 1, 2, NONE, 200, 300);
+        int noGiver = deed(x, 1, NONE, 2, 200, 300);
+        is("numbers", a * 1000 + noTaker * 100 + noLot * 10 + noGiver, 123);
+        is("who got isn't SHOWN", x.judge("10", 0, 1, 0), NONE);
+        is("behind a LINK", x.judge("013", 0, 2, 0), NONE);
+        is("the LOT isn't SHOWN", x.judge("20", 0, 1, 0), NONE);
+        is("at the end", x.judge("02", 0, 2, 0), NONE);
+        is("who gave isn't SHOWN: a GAP", x.judge("03", 0, 2, 0), 1);
+        is("at the begin", x.judge("30", 0, 1, 0), 2);
+    }
+
+    static void p36BeginOfEachInARow() {
+        Hall x = hall("");
+        deed(x, 1, 1, 2, 0, 199);
+        deed(x, 1, 0, 1, 200, 300);
+        deed(x, 1, 1, 2, 0, 200);
+        is("ends ahead of the begin of the one before", x.judge("10", 0, 2, 0), NONE);
+        is("ends on it", x.judge("12", 0, 2, 0), 0);
+        is("the other way, with GAPS", x.judge("01", 0, 1, 0), 2);
+    }
+
+    static void p36FewestOfTwoRoots() {
+        for (int first = 0; first < 2; first++) {
+            Hall x = new Hall();
+            x.persons(5);
+            x.lots(2);
+            x.act("proof copy 6;");
+            x.root(first, 0, 100);
+            x.root(1 - first, 4, 100);
+            x.join(2, 0, 1, 0, 0, 150, 20);
+            for (int i = 0; i < 3; i++) x.paper(1, x.burnt(), i, i + 1, 2, 200, 300);
+            is("none by the one ROOT, one by the other, " + first, x.judge("012", 2, 3, 0), 0);
+            is("chain, " + first, x.chain(2, 3, 0), 0);
+            is("its ROOT, " + first, x.linked(3), first);
+        }
+    }
+
     static void p36EmptyRow() {
         Hall x = hall("");
         is("who held it ever", x.judge("", 0, 0, 0), 0);
@@ -702,11 +851,14 @@ public final class ChainEdgesTest extends Edges {
         x.paper(4, NONE, 1, NONE, 0, 0, 9);
         x.paper(4, NONE, NONE, 1, NONE, 0, 9);
         x.paper(4, NONE, NONE, 1, 1, 0, 9);
-        x.paper(1, NONE, NONE, 1, 0, 0, 9);
+        x.act("proof deed 1;proof copy 1;proof index 1;proof oath 1;proof tax 1;proof plate 1;proof abstract 1;");
+        for (int kind = 0; kind < 7; kind++) {
+            if (kind != 4) x.paper(kind, NONE, NONE, 1, 0, 0, 9);
+        }
         is("none of these", x.held(0, 1, 0, 0), 0);
-        x.paper(4, NONE, NONE, 1, 0, 0, 9);
+        int tax = x.paper(4, NONE, NONE, 1, 0, 0, 9);
         is("this one", x.held(0, 1, 0, 0), 1);
-        x.written(5, 5, 100, 0, 0);
+        x.written(tax, 5, 100, 0, 0);
         x.dead(5, 99);
         is("not if it can't be", x.held(0, 1, 0, 0), 0);
     }

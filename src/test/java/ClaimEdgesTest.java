@@ -48,8 +48,20 @@ public final class ClaimEdgesTest extends Edges {
         x.pass(1);
         is("the day of its SPLIT", x.claim(0, 0), STATE);
         is("what came of it", x.claim(0, 1), 2);
+        x.pass(1);
+        is("a day behind its SPLIT", x.claim(0, 0), STATE);
+        x.pass(5000);
+        is("long behind it", x.claim(0, 0), STATE);
         is("RANGE ahead of STATE", x.claim(1, 0), RANGE);
         is("CLAIMS", x.count(8), 3);
+    }
+
+    static void p42OfOneDead() {
+        Hall x = hall("");
+        x.dead(3, 0);
+        int late = x.person(9999);
+        is("DEAD", x.claim(3, 0), 0);
+        is("not living yet", x.claim(late, 0), 1);
     }
 
     static void p42ThirtyAreFull() {
@@ -172,6 +184,63 @@ public final class ClaimEdgesTest extends Edges {
         x.claim(2, 0);
         x.sit(0);
         is("no GAP ahead of a greater WEAKEST", x.ruled(0, 0), 1);
+        x.pass(6);
+        x.paper(0, x.burnt(), 7, 3, 1, 10, 20);
+        x.paper(1, x.burnt(), 0, 4, 1, 10, 20);
+        x.claim(4, 1);
+        x.claim(3, 1);
+        x.sit(1);
+        is("in the other order, of another LOT", x.ruled(1, 0), 2);
+    }
+
+    static void p43InAnyOrder() {
+        int[][] orders = {{1, 2, 3}, {1, 3, 2}, {2, 1, 3}, {2, 3, 1}, {3, 1, 2}, {3, 2, 1}};
+        for (int[] order : orders) {
+            for (int l = 0; l < 2; l++) {
+                Hall x = hall("notice 0;sure 6;doubt 1;gap 1;proof index 3;");
+                deed(x, 1, 0, 1, l);
+                deed(x, 0, 0, 2, l);
+                deed(x, 2, 0, 3, l);
+                x.pass(4);
+                x.claim(4, 1 - l);
+                for (int p : order) x.claim(p, l);
+                is("heard", x.sit(l), 3);
+                is("the greatest WEAKEST", x.claimed(x.ruled(l, 0), 0), 2);
+                is("SURE", x.ruled(l, 2), 1);
+                is("the others are NOT", x.count(23), 2);
+            }
+        }
+    }
+
+    static void p43SureWithGapsInAnyOrder() {
+        for (int first = 1; first < 3; first++) {
+            Hall x = hall("notice 0;sure 12;doubt 6;gap 1;");
+            deed(x, 1, 0, 1, 1);
+            deed(x, 0, 7, 2, 1);
+            x.claim(first, 1);
+            x.claim(3 - first, 1);
+            is("DOUBT without a GAP", x.worth(first - 1), 2);
+            is("SURE with one", x.worth(2 - first), 1);
+            x.sit(1);
+            is("SURE has it", x.claimed(x.ruled(1, 0), 0), 2);
+            is("SURE", x.ruled(1, 2), 1);
+        }
+    }
+
+    static void p43ByWhatIsSoToday() {
+        Hall x = hall("notice 0;sure 99;doubt 99;long 1;years 2;");
+        x.pass(5);
+        x.act(PROOFS + "notice 400;sure 99;doubt 99;long 2;years 1;");
+        x.paper(4, NONE, NONE, 1, 1, 365, 800);
+        x.claim(1, 1);
+        x.pass(725);
+        is("heard on day 730", x.sit(1), 1);
+        is("by the years 1 and 2, with DOUBT", x.ruled(1, 2), 2);
+        is("the day", x.ruled(1, 1), 730);
+        x.pass(364);
+        is("a day ahead of one year", x.ruled(1, 2), 2);
+        x.pass(1);
+        is("the years of THE ACT of its ruling", x.ruled(1, 2), 1);
     }
 
     static void p43GreatestWeakest() {
@@ -526,6 +595,48 @@ public final class ClaimEdgesTest extends Edges {
             is("fund " + r[0] + " of " + r[1], x.claimed(0, 4), r[2]);
             is("the COIN", x.count(9), r[3]);
         }
+    }
+
+    /** The numbers of CLAIMS, LOTS and persons are unlike each other here. */
+    static void p47NumbersUnlike() {
+        Hall x = hall("notice 0;sure 12;doubt 6;gap 1;years 1;fund 5;");
+        x.lots(1);
+        x.root(2, 0, 0);
+        deed(x, 1, 0, 6, 2);
+        deed(x, 1, 0, 7, 1);
+        x.claim(0, 0);
+        x.claim(5, 0);
+        x.claim(4, 2);
+        x.claim(7, 1);
+        x.claim(6, 2);
+        x.sit(0);
+        x.pass(100);
+        x.sit(1);
+        x.pass(100);
+        x.sit(2);
+        int[] has = {0, 3, 4};
+        for (int l = 0; l < 3; l++) {
+            is("CLAIM that has LOT " + l, x.ruled(l, 0), has[l]);
+            is("day of LOT " + l, x.ruled(l, 1), 100 * l);
+            is("SURE or with DOUBT, LOT " + l, x.ruled(l, 2), l == 0 ? 1 : 2);
+        }
+        x.fund(8);
+        is("nothing of that is so, for all that LOT 0 has", x.open(2), 0);
+        x.place(1, 0, 6);
+        x.place(2, 1, 5);
+        is("settled by the CLAIMS that have them", x.settles(3), 1);
+        x.pass(265);
+        is("LOT 1 is SURE by time", x.ruled(1, 2), 1);
+        is("LOT 2 isn't", x.ruled(2, 2), 2);
+        x.dead(6, 9);
+        is("OPENED", x.open(2), 1);
+        int[] states = {1, 3, 0, 1, 0};
+        int[] pounds = {0, 0, 0, 0, 5};
+        for (int c = 0; c < 5; c++) {
+            is("state of CLAIM " + c, x.claimed(c, 3), states[c]);
+            is("pounds of CLAIM " + c, x.claimed(c, 4), pounds[c]);
+        }
+        is("the COIN", x.count(9), 3);
     }
 
     static void p47FundOfToday() {

@@ -136,6 +136,19 @@ public final class LotEdgesTest extends Edges {
         is("RANGE ahead of both", x.split(0, 49, 2, 1, 0, 0, 0), RANGE);
     }
 
+    static void p14FeetAndDayOfEach() {
+        Hall x = new Hall();
+        x.lot(100, 3);
+        x.split(0, 7, 4, 40, 30, 20, 10);
+        for (int i = 0; i < 4; i++) {
+            is("feet of " + i, x.about(1 + i, 0), 40 - 10 * i);
+            is("day of " + i, x.about(1 + i, 1), 7);
+            is("not gone, " + i, x.about(1 + i, 2), NONE);
+        }
+        is("its own feet stay", x.about(0, 0), 100);
+        is("its own day too", x.about(0, 1), 3);
+    }
+
     static void p14NewOnesHaveNoBounds() {
         Hall x = new Hall();
         x.lots(3);
@@ -181,6 +194,10 @@ public final class LotEdgesTest extends Edges {
         each("feet", RANGE, f -> x.join(2, 0, 1, 0, 0, 5, f), beyond(1, 999999));
         is("the least", x.join(2, 0, 1, 0, 0, 5, 1), 4);
         is("the greatest", x.join(2, 2, 3, 0, 0, 5, 999999), 5);
+        is("feet 1", x.about(4, 0), 1);
+        is("feet 999999", x.about(5, 0), 999999);
+        is("from that day on", x.about(5, 1), 5);
+        is("those that were keep theirs", x.about(0, 0), 10);
         is("LACK 19", x.about(4, 4), 19);
         is("LACK below 0", x.about(5, 4), 20 - 999999);
     }
@@ -274,11 +291,13 @@ public final class LotEdgesTest extends Edges {
         int[] lack = {1, 0, -1};
         for (int l = 0; l < 3; l++) is("of SPLIT " + l, x.about(l, 3), lack[l]);
         is("of its own JOINING", x.about(0, 4), 0);
+        for (int l = 3; l < 9; l++) is("came of no JOINING, " + l, x.about(l, 4), 0);
         x.join(2, 3, 4, 0, 0, 9, 8);
         x.join(2, 5, 6, 0, 0, 9, 10);
         x.join(2, 7, 8, 0, 0, 9, 12);
         for (int l = 0; l < 3; l++) is("of JOINING " + l, x.about(9 + l, 4), lack[l]);
-        is("of its own SPLIT", x.about(9, 3), 0);
+        for (int l = 9; l < 12; l++) is("of its own SPLIT, " + l, x.about(l, 3), 0);
+        for (int l = 3; l < 9; l++) is("of that of which it came, " + l, x.about(l, 3) + x.about(l, 4), 0);
         is("one that was JOINED has none", x.about(3, 3), 0);
     }
 

@@ -354,6 +354,14 @@ public final class PaperEdgesTest extends Edges {
         holds("a is 5", "a=5;", true);
         holds("a is 5", "a=4;", false);
         holds("a is 5", "a=6;", false);
+        holds("a above 5", "a=4;", false);
+        holds("a below 5", "a=6;", false);
+        holds("b and a above 5", "b;a=4;", false);
+        holds("a above 5 and b", "b;a=4;", false);
+        holds("b and a below 5", "b;a=6;", false);
+        holds("a below 5 and b", "b;a=6;", false);
+        holds("b and a is 5", "b;a=4;", false);
+        holds("b or a above 5", "a=4;", false);
         holds("a is 0", "", true);
         holds("a above b + 1", "a=2;b=1;", false);
         holds("a below b + 1", "a=1;b=1;", true);
@@ -371,6 +379,11 @@ public final class PaperEdgesTest extends Edges {
         holds("not a and b", "", false);
         holds("not not a", "a;", true);
         holds("not a is 0", "", false);
+        holds("a or b", "a;b;", true);
+        holds("a or b or c", "a;b;c;", true);
+        holds("not (a or b)", "a;b;", false);
+        holds("(a or b) and (a or c)", "a;b;c;", true);
+        holds("a and b or a and c", "a;b;c;", true);
         holds("a or b or c", "b;", true);
         holds("a or b or c", "", false);
         holds("a and b and c", "a;b;c;", true);
@@ -462,6 +475,8 @@ public final class PaperEdgesTest extends Edges {
         is("ends on the day on which it came", ofLot(100, NONE, 50, 100), 0);
         is("begins a day ahead of its end", ofLot(100, 200, 199, 300), 0);
         is("begins on the day of its end", ofLot(100, 200, 200, 300), 2);
+        is("begins behind its end", ofLot(100, 200, 201, 300), 2);
+        is("long behind it", ofLot(100, 200, 5000, 9999), 2);
         is("one day, the last", ofLot(100, 200, 199, 199), 0);
         is("one day, that of its end", ofLot(100, 200, 200, 200), 2);
         is("one day, the first", ofLot(100, 200, 100, 100), 0);
@@ -555,6 +570,25 @@ public final class PaperEdgesTest extends Edges {
         is("nor for this", x.cant(1, 1), 0);
     }
 
+    /** Terms III: from which day one lives is its own, whoever is ONE with it. */
+    static void p31OwnFirstDay() {
+        Hall x = new Hall();
+        int young = x.person(80);
+        int old = x.person(0);
+        x.same(young, old);
+        for (int reason : new int[] {3, 4}) {
+            for (int p : new int[] {young, old}) {
+                int k = x.paper(1, NONE, reason == 3 ? p : NONE, reason == 4 ? p : NONE, NONE, 20, 79);
+                is("reason " + reason + " of " + p, x.cant(k, 0), p == young ? reason : 0);
+            }
+        }
+        for (int p : new int[] {young, old}) {
+            int k = x.paper(1, NONE, NONE, NONE, NONE, 20, 79);
+            x.written(k, p, 79, 0, 0);
+            is("HAND " + p, x.cant(k, 0), p == young ? 1 : 0);
+        }
+    }
+
     static void p31PageOfABook() {
         Hall x = hall("");
         x.pages(1);
@@ -566,6 +600,22 @@ public final class PaperEdgesTest extends Edges {
         }
         x.paper(1, 0, 0, 1, 0, 0, 9);
         is("what isn't told is passed by", x.cant(leaves.length, 0), 0);
+    }
+
+    /** PAPERS whose PAGE isn't told are on none, not on the first of all. */
+    static void p31PagesNotTold() {
+        Hall x = hall("");
+        x.pages(1);
+        for (int k = 0; k < 5; k++) x.paper(1, 0, 0, 1, 0, 0, 9);
+        x.written(1, 3, 5, 0, 0);
+        is("none told ahead of it", x.cant(1, 0), 0);
+        x.written(3, 4, 5, 0, 0);
+        is("one told ahead of it", x.cant(3, 0), 5);
+        x.pages(2);
+        is("two fit", x.cant(3, 0), 0);
+        x.written(4, 5, 5, 0, 0);
+        is("not three", x.cant(4, 0), 5);
+        is("one not told itself", x.cant(2, 0), 0);
     }
 
     static void p31PageByLesserNumbers() {
@@ -673,6 +723,54 @@ public final class PaperEdgesTest extends Edges {
         x.paper(2, 0, NONE, 4, NONE, 10, 20);
         x.paper(2, 0, NONE, 4, NONE, 10, 20);
         facts(x, 0, 0, 2, NONE, NONE, 10, 20, 9, 0, 0, 0, 6);
+    }
+
+    static void p32GreatestInAnyOrder() {
+        int[][] orders = {{0, 1, 2}, {0, 2, 1}, {1, 0, 2}, {1, 2, 0}, {2, 0, 1}, {2, 1, 0}};
+        for (int[] order : orders) {
+            Hall x = hall("proof plate 2;");
+            x.paper(1, 1, 5, 5, 0, 0, 9);
+            int[] kinds = {5, 2, 1};
+            for (int i : order) x.paper(kinds[i], 0, 4 - order[i], 1 + order[i], i % 2, 10, 20);
+            int best = order[2];
+            is("who gave", x.shown(0, 0, 0), 4 - best);
+            is("who got", x.shown(0, 0, 1), 1 + best);
+            is("POINTS", x.shown(0, 0, 5), 6);
+            is("no QUARREL", x.shown(0, 0, 9), 0);
+        }
+    }
+
+    static void p32OnlyOathsAreLimited() {
+        for (int kind = 0; kind < 7; kind++) {
+            Hall x = new Hall();
+            x.persons(2);
+            x.lots(1);
+            x.burnts(2);
+            x.act("proof deed 3;proof copy 3;proof index 3;proof oath 3;proof tax 3;proof plate 3;proof abstract 3;oaths 1;");
+            for (int i = 0; i < 3; i++) x.paper((kind + 1 + i) % 7, 1, 1, 0, 0, 0, 5);
+            for (int i = 0; i < 3; i++) x.paper(kind, 0, 0, 1, 0, 10, 20);
+            int sum = kind == 3 ? 3 : 9;
+            facts(x, 0, 0, 0, 1, 0, 10, 20, sum, sum, sum, sum, 0);
+        }
+    }
+
+    static void p32OfTheLastBurntOne() {
+        Hall x = new Hall();
+        x.persons(4);
+        x.lots(2);
+        x.burnts(30);
+        x.act("proof copy 6;proof oath 2;oaths 1;");
+        x.paper(0, 0, 2, 3, 1, 0, 5);
+        x.paper(0, 0, 2, 3, 1, 0, 5);
+        x.paper(1, 29, 0, 1, 0, 10, 20);
+        x.paper(3, 29, 0, 1, 0, 15, 30);
+        x.paper(3, 29, 0, 1, 0, 12, 30);
+        facts(x, 29, 0, 0, 1, 0, 15, 20, 8, 8, 8, 8, 0);
+        x.paper(1, 29, 2, 3, 1, 40, 50);
+        x.paper(3, 29, 2, 3, 1, 40, 50);
+        facts(x, 29, 0, NONE, NONE, NONE, 0, 9999, 0, 0, 0, 0, 15);
+        facts(x, 0, 0, NONE, NONE, NONE, 0, 9999, 0, 0, 0, 0, 0);
+        facts(x, 28, 0, NONE, NONE, NONE, 0, 9999, 0, 0, 0, 0, 0);
     }
 
     static void p32QuarrelBelowLeastIsNone() {

@@ -268,6 +268,23 @@ public final class PersonEdgesTest extends Edges {
         is("from there on", x.one(last + 1, 79, 0), 1);
     }
 
+    static void p11TwoRowsStayTwo() {
+        Hall x = new Hall();
+        x.persons(6);
+        x.same(1, 4);
+        x.same(0, 2);
+        x.same(5, 3);
+        int[] rows = {0, 1, 0, 3, 1, 3};
+        for (int p = 0; p < 6; p++) {
+            for (int q = 0; q < 6; q++) is("one(" + p + ", " + q + ")", x.one(p, q, 0), rows[p] == rows[q] ? 1 : 0);
+        }
+        x.same(4, 5);
+        for (int p : new int[] {1, 3, 4, 5}) {
+            is(p + " and 1", x.one(p, 1, 0), 1);
+            is(p + " and 2", x.one(p, 2, 0), 0);
+        }
+    }
+
     static void p12NoSuchDay() {
         Hall x = new Hall();
         each("day", RANGE, x::names, beyond(0, 9999));

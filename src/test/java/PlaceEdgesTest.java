@@ -196,6 +196,24 @@ public final class PlaceEdgesTest extends Edges {
         is("all thirty", x.settles(0), 30);
     }
 
+    static void p50EachLotItsOwnLack() {
+        Hall x = hall(3);
+        x.paper(1, 1, 0, 1, 1, 10, 20);
+        x.act("proof copy 6;sure 20;gap 1;");
+        x.place(1, 0, 13);
+        x.place(1, 1, 7);
+        x.place(1, 2, 14);
+        x.place(1, 1, 1);
+        x.place(1, 0, 1);
+        int[] settled = {0, 0, 0, 0, 1, 1, 1, 1};
+        for (int set = 0; set < 8; set++) is("settles " + set, x.settles(set), settled[set]);
+        is("the second's own", x.settles(2 | 8), 1);
+        is("the first's own", x.settles(1 | 16), 1);
+        is("all", x.settles(31), 3);
+        is("next", x.next(3), 2);
+        is("the least set for 3", x.looked(0), 4 | 2 | 8);
+    }
+
     static void p51NoSuchSum() {
         Hall x = hall(1);
         each("sum", RANGE, x::next, beyond(0, 1200));
