@@ -594,6 +594,7 @@ public final class ChainEdgesTest extends Edges {
         is("chain", x.chain(59, 79, 9999), 0);
         is("its ROOT", x.linked(3), 59);
         is("its LINK", x.linked(10), 29);
+        is("judged", x.judge("M", 59, 79, 9999), 0);
     }
 
     static void p35NothingYet() {
@@ -640,8 +641,13 @@ public final class ChainEdgesTest extends Edges {
         int a = deed(x, 1, 0, 1, 200, 300);
         x.chain(0, 1, 0);
         is("judge", x.judge("", 0, 0, 0), 0);
+        int b = deed(x, 2, 0, 2, 200, 300);
+        x.claim(2, 0);
+        is("worth, by another LINK", x.worth(0), 3);
+        is("its LINK stays", x.linked(10), a);
+        is("judged by another LINK", x.judge("" + (char) (48 + b), 0, 2, 0), 0);
         x.claim(0, 0);
-        x.worth(0);
+        x.worth(1);
         x.sit(0);
         x.settles(0);
         x.next(0);
@@ -694,6 +700,19 @@ public final class ChainEdgesTest extends Edges {
         is("one of which nothing is SHOWN", x.judge("1", 0, 1, 0), NONE);
         is("ahead of one", x.judge("10", 0, 1, 0), NONE);
         is("a blank is no LINK", x.judge("0M ", 0, 2, 0), NONE);
+    }
+
+    static void p36BytesFromDayZeroOn() {
+        Hall x = new Hall();
+        x.persons(3);
+        x.lots(1);
+        x.root(0, 0, 0);
+        x.act("proof copy 6;");
+        deed(x, 1, 0, 1, 0, 50);
+        for (char c = '1'; c < '1' + 40; c++) {
+            is("byte " + (int) c + " ahead of one", x.judge(c + "0", 0, 1, 0), NONE);
+            is("byte " + (int) c + " alone", x.judge("" + c, 0, 0, 0), NONE);
+        }
     }
 
     static void p36NoLinksInARow() {
@@ -872,6 +891,14 @@ public final class ChainEdgesTest extends Edges {
         is("who got is a QUARREL", x.shown(0, 0, 9), 2);
         is("the PAPER SHOWS it all the same", x.held(0, 1, 0, 0), 1);
         is("so does the other", x.held(0, 3, 0, 0), 1);
+    }
+
+    static void p37ByTheLastOfAllPapers() {
+        Hall x = hall("");
+        for (int k = 0; k < 119; k++) x.paper(4, NONE, NONE, 2, 0, 365, 400);
+        is("the 120th", x.paper(4, NONE, NONE, 1, 0, 0, 9), 119);
+        is("by it alone", x.held(0, 1, 0, 0), 1);
+        is("not the year of the others", x.held(0, 1, 1, 0), 0);
     }
 
     static void p37WeightAboveZero() {

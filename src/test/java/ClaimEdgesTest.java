@@ -197,13 +197,14 @@ public final class ClaimEdgesTest extends Edges {
         int[][] orders = {{1, 2, 3}, {1, 3, 2}, {2, 1, 3}, {2, 3, 1}, {3, 1, 2}, {3, 2, 1}};
         for (int[] order : orders) {
             for (int l = 0; l < 2; l++) {
-                Hall x = hall("notice 0;sure 6;doubt 1;gap 1;proof index 3;");
+                Hall x = hall("notice 3;sure 6;doubt 1;gap 1;proof index 3;");
                 deed(x, 1, 0, 1, l);
                 deed(x, 0, 0, 2, l);
                 deed(x, 2, 0, 3, l);
                 x.pass(4);
                 x.claim(4, 1 - l);
                 for (int p : order) x.claim(p, l);
+                x.pass(3);
                 is("heard", x.sit(l), 3);
                 is("the greatest WEAKEST", x.claimed(x.ruled(l, 0), 0), 2);
                 is("SURE", x.ruled(l, 2), 1);
@@ -307,6 +308,50 @@ public final class ClaimEdgesTest extends Edges {
         x.dead(1, 9);
         is("OPENED", x.open(0), 1);
         is("heard again", x.sit(0), 1);
+    }
+
+    /** One without a CHAIN comes behind one whose only LINK has a GAP and no POINTS. */
+    static void p43DoubtWithoutAChainIsLast() {
+        for (int first = 1; first < 3; first++) {
+            Hall x = hall("notice 0;sure 99;doubt 99;gap 0;long 1;");
+            deed(x, 1, NONE, 2, 0);
+            x.paper(4, NONE, NONE, 1, 0, 0, 364);
+            x.paper(4, NONE, NONE, 2, 0, 0, 364);
+            x.claim(first, 0);
+            x.claim(3 - first, 0);
+            is("both with DOUBT", x.worth(0) + x.worth(1), 4);
+            x.sit(0);
+            is("a GAP and no POINTS ahead of none, " + first, x.claimed(x.ruled(0, 0), 0), 2);
+        }
+    }
+
+    /** What was told late counts late: all on days far on. */
+    static void p43OnDaysFarOn() {
+        Hall x = hall("notice 0;years 1;");
+        x.pass(5000);
+        x.act(PROOFS + "notice 0;sure 12;doubt 6;years 1;fund 3;");
+        x.claim(1, 0);
+        is("nothing KNOWN", x.worth(0), 3);
+        deed(x, 1, 0, 1, 0);
+        is("KNOWN today", x.worth(0), 2);
+        is("heard", x.sit(0), 1);
+        is("with DOUBT", x.ruled(0, 2), 2);
+        x.fund(9);
+        x.place(4, 0, 6);
+        is("settled by looking", x.settles(1), 1);
+        is("for its cost", x.next(4), 1);
+        is("not for less", x.next(3), 0);
+        is("not opened", x.open(0), 0);
+        x.pass(200);
+        x.paper(1, 0, 0, 1, 0, 10, 20);
+        is("SURE as it is", x.settles(0), 1);
+        is("for nothing", x.next(0), 1);
+        x.dead(1, 5);
+        is("nothing is left to settle", x.settles(1), 0);
+        is("for no sum", x.next(1200), 0);
+        x.act(PROOFS + "notice 0;fund 7;");
+        is("OPENED", x.open(0), 1);
+        is("fund of today", x.claimed(0, 4), 7);
     }
 
     static void p44NoSuchClaim() {
@@ -583,6 +628,25 @@ public final class ClaimEdgesTest extends Edges {
         is("another CLAIM would be", x.open(0), 1);
         is("pounds of the one that had it", x.claimed(0, 4), 3);
         is("none of the other", x.claimed(1, 4), 0);
+    }
+
+    /** The claim that has it has it by years: whether it would be NOT goes by the year of today. */
+    static void p47HeldByYears() {
+        Hall x = hall("notice 0;sure 99;doubt 99;long 1;years 9;fund 4;");
+        x.fund(9);
+        x.paper(4, NONE, NONE, 1, 1, 730, 1100);
+        x.claim(1, 1);
+        x.pass(730);
+        is("heard", x.sit(1), 1);
+        is("with DOUBT", x.ruled(1, 2), 2);
+        is("that year", x.open(1), 0);
+        x.pass(365);
+        is("the next year", x.open(1), 0);
+        x.pass(364);
+        is("its last day", x.open(1), 0);
+        x.pass(1);
+        is("the year behind", x.open(1), 1);
+        is("pounds", x.claimed(0, 4), 4);
     }
 
     static void p47PoundsFromTheCoin() {

@@ -316,6 +316,21 @@ public final class PaperEdgesTest extends Edges {
         is("on the last day", x.weight(0, 9999), 80);
     }
 
+    static void p30CondsOfEachAct() {
+        Hall x = new Hall();
+        String[] conds = {"a", "not a and not b", "b is 2 or c", "a + b above 2", "a above 0 and (b or c)"};
+        for (String cond : conds) {
+            x.pass(1);
+            is(cond, x.act("proof copy 7 when " + cond + ";proof copy 9 when (" + cond + ") and z;"), 2);
+        }
+        String[] marks = {"a;", "", "b=2;", "a;b=2;", "a;c;z;"};
+        int[][] weights = {{7, 0, 0, 0, 0}, {0, 7, 0, 0, 0}, {0, 0, 7, 0, 0}, {7, 0, 7, 7, 7}, {9, 0, 9, 0, 9}};
+        for (int k = 0; k < marks.length; k++) {
+            x.text(marks[k]).paper(1, NONE, NONE, NONE, NONE, 0, 0);
+            for (int i = 0; i < conds.length; i++) is(marks[k] + " by " + conds[i], x.weight(k, i + 1), weights[k][i]);
+        }
+    }
+
     static void p30LeastAndGreatestWeight() {
         Hall x = new Hall();
         x.act("proof copy 99;proof index 0;proof tax 5;proof tax 0;");
@@ -382,6 +397,8 @@ public final class PaperEdgesTest extends Edges {
         holds("a or b", "a;b;", true);
         holds("a or b or c", "a;b;c;", true);
         holds("not (a or b)", "a;b;", false);
+        holds("(a or b) and c", "a;b;c;", true);
+        holds("c and (a or b)", "a;b;c;", true);
         holds("(a or b) and (a or c)", "a;b;c;", true);
         holds("a and b or a and c", "a;b;c;", true);
         holds("a or b or c", "b;", true);
@@ -390,6 +407,33 @@ public final class PaperEdgesTest extends Edges {
         holds("a and b and c", "a;c;", false);
         holds("(a and (b or not (c and (d or not e))))", "a;c;e=0;", false);
         holds("(a and (b or not (c and (d or not e))))", "a;c;e;", true);
+    }
+
+    /** As much waits for the innermost TEST as can: five ( open, an or and an and ahead of each. */
+    static void p30DeepestCond() {
+        String inner = "p or q + r + s is t + u + v";
+        String outer = "a or b and (";
+        String cond = times(outer, 5) + inner + times(")", 5);
+        holds(cond, "b;q=1;r=2;s=3;t=3;u=2;v=1;", true);
+        holds(cond, "b;q=1;r=2;s=3;t=3;u=2;v=2;", false);
+        holds(cond, "b;p;v=2;", true);
+        holds(cond, "q=1;v=1;", false);
+        holds(cond, "a;", true);
+        holds(times("a and not (", 5) + inner + times(")", 5), "a;q=1;v=1;", false);
+        holds(times("a and not (", 5) + inner + times(")", 5), "a;q=1;v=2;", true);
+    }
+
+    /** An ACT of some 1000 bytes: each of its CONDS is kept whole, the last too. */
+    static void p30LongestAct() {
+        StringBuilder text = new StringBuilder();
+        for (int i = 1; i <= 24; i++) text.append("proof tax ").append(10 + i).append(" when a+b+c is ").append(i).append(" and z;");
+        Hall x = new Hall();
+        is("clauses", x.act(text.toString()), 24);
+        int[] picks = {1, 2, 12, 23, 24, 25};
+        for (int k = 0; k < picks.length; k++) {
+            x.text("a=" + (picks[k] - 1) + ";b=0;c=1;z;").paper(4, NONE, NONE, NONE, NONE, 0, 0);
+            is("sum " + picks[k], x.weight(k, 0), picks[k] <= 24 ? 10 + picks[k] : 0);
+        }
     }
 
     static void p30LastProofThatHolds() {
@@ -752,6 +796,29 @@ public final class PaperEdgesTest extends Edges {
             int sum = kind == 3 ? 3 : 9;
             facts(x, 0, 0, 0, 1, 0, 10, 20, sum, sum, sum, sum, 0);
         }
+    }
+
+    static void p32SaidByTheLastOfMany() {
+        Hall x = hall("");
+        for (int i = 0; i < 40; i++) x.paper(0, 0, 1, 2, 1, 0, 9999);
+        x.paper(2, 0, 3, 4, 0, 10, 20);
+        facts(x, 0, 0, 3, 4, 0, 10, 20, 3, 3, 3, 3, 0);
+        x.paper(1, 0, 1, 2, 1, 10, 20);
+        facts(x, 0, 0, 1, 2, 1, 10, 20, 6, 6, 6, 6, 0);
+    }
+
+    static void p32WithoutThoseThatDontFitAPage() {
+        Hall x = hall("");
+        x.pages(1);
+        x.pass(100);
+        for (int k = 0; k < 3; k++) {
+            x.paper(1, 0, 0, 1, 0, 10 + 5 * k, 40);
+            x.written(k, 5, 50, 7, 70);
+        }
+        facts(x, 0, 100, 0, 1, 0, 10, 40, 6, 6, 6, 6, 0);
+        facts(x, 0, 99, NONE, NONE, NONE, 0, 9999, 0, 0, 0, 0, 0);
+        x.pages(2);
+        facts(x, 0, 100, 0, 1, 0, 15, 40, 12, 12, 12, 12, 0);
     }
 
     static void p32OfTheLastBurntOne() {

@@ -214,6 +214,20 @@ public final class PlaceEdgesTest extends Edges {
         is("the least set for 3", x.looked(0), 4 | 2 | 8);
     }
 
+    /** POINTS of a BURNT one are the least of the three, whichever that is. */
+    static void p50LeastOfTheThree() {
+        for (int least = 0; least < 3; least++) {
+            Hall x = hall(1);
+            x.paper(1, 0, least == 0 ? NONE : 0, least == 1 ? NONE : 1, least == 2 ? NONE : 0, 10, 20);
+            is("POINTS", x.shown(0, 0, 8), 6);
+            x.place(1, 0, 5);
+            x.place(1, 0, 6);
+            is("as it is", x.settles(0), 0);
+            is("with 5", x.settles(1), 0);
+            is("with 6", x.settles(2), 1);
+        }
+    }
+
     static void p51NoSuchSum() {
         Hall x = hall(1);
         each("sum", RANGE, x::next, beyond(0, 1200));
