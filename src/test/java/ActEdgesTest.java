@@ -68,6 +68,25 @@ public final class ActEdgesTest extends Edges {
         is("the eighth stays still", x.rule(9999, 3), 7);
     }
 
+    static void p23NinthLeavesWhatIsntTold() {
+        int[] untold = {1, 20, 8, 2, 30, 20, 10, 2, 0, 0, 0};
+        String all = "least 9;sure 9;doubt 9;gap 9;notice 9;long 9;years 9;oaths 9;heirs;fund 9;proof tax 9;";
+        Hall x = new Hall();
+        x.paper(4, NONE, NONE, NONE, NONE, 0, 0);
+        x.pass(10);
+        for (int i = 0; i < 8; i++) x.act("proof tax 5;");
+        is("the ninth", x.act(all), FULL);
+        is("a ninth with a FAULT", x.act(all + "?"), NONE);
+        for (int what = 0; what < untold.length; what++) {
+            is("ahead of any, " + what, x.rule(9, what), untold[what]);
+            is("by the eighth, " + what, x.rule(10, what), what == 10 ? 1 : untold[what]);
+        }
+        is("WEIGHT ahead of any", x.weight(0, 9), 0);
+        is("by the eighth", x.weight(0, 10), 5);
+        x.paper(4, NONE, NONE, NONE, NONE, 0, 0);
+        is("of a later PAPER ahead of any", x.weight(1, 9), 0);
+    }
+
     static void p23FaultsAreNoActs() {
         Hall x = new Hall();
         for (int i = 0; i < 9; i++) is("FAULT " + i, x.act("gap 3;gap 3;"), NONE);
@@ -313,6 +332,29 @@ public final class ActEdgesTest extends Edges {
         bad(WHEN + "a is not;", 1, 22);
         bad(WHEN + "a + not b;", 1, 21);
         for (String word : new String[] {"o", "an", "nots", "abov", "i", "whe", "proof", "heirs", "tax", "fund"}) good(WHEN + word + ";", 1);
+    }
+
+    /** Bytes of signs as numbers (59 is ;), and WORDS and Ns that could be taken for one another: each is its own. */
+    static void p23NumbersAndWordsAreNoSigns() {
+        for (String n : new String[] {"40", "41", "43", "59", "61"}) {
+            bad("gap 3 " + n, 1, 6);
+            bad("heirs " + n, 1, 6);
+            bad(WHEN + "a " + n + " b;", 1, 19);
+            bad(WHEN + "(a " + n + ";", 1, 20);
+            good(WHEN + n + ";", 1);
+            good(WHEN + "(" + n + "+" + n + ") or " + n + ";", 1);
+        }
+        for (String word : new String[] {"ah", "ai", "ak", "af", "n", "s"}) {
+            bad("gap 3 " + word, 1, 6);
+            bad(WHEN + "a " + word + " b;", 1, 19);
+            good(WHEN + word + " + " + word + ";", 1);
+        }
+        for (String n : new String[] {"498", "307", "1476", "7216", "14", "5", "19", "23"}) {
+            bad(n + " 3;", 1, 0);
+            bad("proof " + n + " 3;", 1, 6);
+            bad(WHEN + "a " + n + " b;", 1, 19);
+            good(WHEN + n + " is " + n + " and " + n + ";", 1);
+        }
     }
 
     static void p23SyntaxWhereATextEnds() {

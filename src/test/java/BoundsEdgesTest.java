@@ -90,6 +90,15 @@ public final class BoundsEdgesTest extends Edges {
         for (String w : new String[] {"N", "?", "=", "(", "+", ";", "7", "\t", "\r", "\u0000", "\u00ee"}) fault(x, w + "7;", 1, 0);
     }
 
+    static void p18NumbersAreNoWays() {
+        Hall x = hall();
+        for (String n : new String[] {"14", "5", "19", "23", "59", "0", "1", "2", "3"}) {
+            fault(x, n + " 7;", 1, 0);
+            fault(x, "n 7 " + n, 1, 4);
+        }
+        is("a way may stand at an N", x.bounds("n14;e5;s19;w23;n59;", 0, 0, 0), 5);
+    }
+
     static void p18SyntaxAtEachToken() {
         Hall x = hall();
         fault(x, "n", 1, 1);

@@ -170,11 +170,28 @@ public final class OracleTest {
         call("rule", known(), random.nextInt(12));
     }
 
+    /** Three TESTS of short WORDS, one of them within ( ). */
+    private String soundCond() {
+        String[] tests = {"a", "b", "sworn", "pages", "seal", "a + b above 2", "pages below seal", "a is b"};
+        String[] joints = {" or ", " and "};
+        String one = tests[random.nextInt(tests.length)];
+        String two = tests[random.nextInt(tests.length)];
+        String three = tests[random.nextInt(tests.length)];
+        String not = random.nextInt(3) == 0 ? "not " : "";
+        String within = not + "(" + two + joints[random.nextInt(2)] + three + ")";
+        String joint = joints[random.nextInt(2)];
+        return random.nextBoolean() ? one + joint + within : within + joint + one;
+    }
+
     /** An ACT that gives most PAPERS a WEIGHT, so that much is SHOWN. */
     private void soundAct() {
         StringBuilder s = new StringBuilder();
         for (String kind : KINDS) s.append("proof ").append(kind).append(' ').append(1 + random.nextInt(9)).append(';');
         s.append("proof copy 12 when sworn; proof oath 5 when pages above 2;");
+        for (int i = random.nextInt(4); i > 0; i--) {
+            s.append("proof ").append(KINDS[random.nextInt(KINDS.length)]).append(' ').append(10 + random.nextInt(9));
+            s.append(" when ").append(soundCond()).append(';');
+        }
         s.append("sure ").append(3 + random.nextInt(12)).append("; doubt ").append(random.nextInt(9)).append(';');
         s.append("notice ").append(random.nextInt(4)).append("; years 1; long ").append(1 + random.nextInt(3)).append(';');
         if (random.nextBoolean()) s.append("heirs;");
@@ -240,8 +257,10 @@ public final class OracleTest {
 
     private void paper() {
         StringBuilder marks = new StringBuilder();
-        for (int i = random.nextInt(4); i > 0; i--) {
-            marks.append(WORDS[random.nextInt(WORDS.length)]);
+        // Mostly other WORDS each time, so that many MARKS stand and CONDS hold by more than one of them.
+        int first = random.nextInt(WORDS.length);
+        for (int i = random.nextInt(7); i > 0; i--) {
+            marks.append(WORDS[random.nextInt(12) == 0 ? random.nextInt(WORDS.length) : (first + i) % WORDS.length]);
             if (random.nextBoolean()) marks.append(random.nextBoolean() ? "=" : " = ").append(number(5));
             marks.append(random.nextBoolean() ? ";" : " ; ");
         }

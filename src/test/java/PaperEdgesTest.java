@@ -164,6 +164,13 @@ public final class PaperEdgesTest extends Edges {
         is("blanks between", marked(x, " a \n = \n 5 ; "), 2);
     }
 
+    static void p27WordsNumbersAndSignsOfMarks() {
+        Hall x = hall("proof copy 9 when ah is 59 and ai is 61 and ak;");
+        is("each its own", marked(x, "ah=59;ai=61;ak=40;"), 0);
+        is("WEIGHT", x.weight(0, 0), 9);
+        for (String marks : new String[] {"a 59", "a 61 5;", "59;", "61;", "a=ah;", "a=5 59", "a ah 5;"}) is(marks, marked(x, marks), NONE);
+    }
+
     static void p27Full() {
         Hall x = hall("");
         for (int i = 0; i < 120; i++) is("PAPER " + i, x.paper(1, 1, 0, 1, 0, 0, 9), i);
@@ -220,6 +227,23 @@ public final class PaperEdgesTest extends Edges {
         is("it can be", x.cant(0, 0), 0);
         is("then told", x.written(0, 2, 6, 0, 99), 1);
         is("it can't", x.cant(0, 0), 1);
+    }
+
+    static void p28StaysWhateverIsWeighed() {
+        Hall x = hall("");
+        x.pages(1);
+        x.dead(5, 60);
+        for (int k = 0; k < 4; k++) x.text("a=9999;b=7;").paper(1, 0, 0, 1, 0, 0, 9);
+        x.written(0, 5, 60, 3, 4);
+        x.written(1, 5, 61, 3, 5);
+        x.written(2, 4, 60, 3, 4);
+        x.act("proof copy 5 when a + a + a above b + b and (b is 7 or a) and not (a is b or b above a);");
+        x.text("b=3;").paper(1, 0, 0, 1, 0, 0, 9);
+        int[] cant = {0, 1, 5, 0, 0};
+        for (int k = 0; k < cant.length; k++) is("PAPER " + k, x.cant(k, 0), cant[k]);
+        is("still told", x.written(0, 5, 60, 3, 4), STATE);
+        is("still not told", x.written(3, 5, 60, 3, 4), 1);
+        is("on a full PAGE", x.cant(3, 0), 5);
     }
 
     static void p29OneToForty() {
