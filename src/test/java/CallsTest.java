@@ -27,6 +27,10 @@ public final class CallsTest {
     private final Map<String, Set<String>> calls = new TreeMap<>();
 
     public static void main(String[] args) throws IOException, URISyntaxException {
+        if (ToolProvider.findFirst("javap").isEmpty()) {
+            System.out.println("this java has no javap: nothing was read");
+            return;
+        }
         CallsTest test = new CallsTest();
         String code = test.disassembled();
         test.gather(code);

@@ -509,7 +509,7 @@ public final class Oracle {
         return Math.abs(miss[0]) + Math.abs(miss[1]);
     }
 
-    /** Tries every change of one line an axis; MendTest tries all lengths for small BOUNDS. */
+    /** Tries every change of one line an axis; LotsTest tries all lengths for small BOUNDS. */
     public int mend(int l) {
         if (without(l) < 0) return without(l);
         List<int[]> lines = lots.get(l).lines;

@@ -17,7 +17,8 @@ public final class ReadmeTest {
 
     public static void main(String[] args) throws IOException, InterruptedException {
         String readme = Files.readString(Path.of("README.md"));
-        Path room = Files.createTempDirectory("readme");
+        // Beside the classes, where whoever runs the test may write.
+        Path room = Files.createTempDirectory(Path.of(System.getProperty("java.class.path")).toAbsolutePath(), "readme");
         try {
             example(block(readme, "java", 0), room);
             allTests(readme);
